@@ -176,6 +176,8 @@ public final class LostPoolRentTest {
         Check.row(x, 0, 2, 0, 0, 0, 0, 0, 0, 0);
         Check.row(x, 1, 0, 2, 0, 0, 0, 0, 0, 0);
         expectPool(x, 0, 2 * 100);
+        Check.row(x, 1, 0, 1, 0, 0, 0, 0, 0, 9);
+        expectPool(x, 9, 100);
     }
 
     private static void expectPool(TrailerYards x, int lack, int minutes) {

@@ -111,6 +111,8 @@ public final class RowsTextsYardsTest {
         Check.finds(x, "copy from below", x.copy(0, -1, 1, 0, 1), BEYOND);
         Check.finds(x, "copy to below", x.copy(0, 0, 1, -1, 1), BEYOND);
         Check.finds(x, "copy too many", x.copy(0, 0, 1, 0, 4), BEYOND);
+        Check.finds(x, "copy beyond the end", x.copy(0, 3, 1, 0, 3), BEYOND);
+        Check.finds(x, "copy beyond the end", x.copy(0, 0, 1, 2, 2), BEYOND);
         Check.finds(x, "copy far too many", x.copy(0, 1, 1, 1, MOST), BEYOND);
         Check.finds(x, "copy from far", x.copy(0, MOST, 1, MOST, MOST), BEYOND);
         Check.finds(x, "copy fewer than none", x.copy(0, 0, 2, 0, -1), SIZE);
@@ -180,6 +182,13 @@ public final class RowsTextsYardsTest {
         expectFault(" x", 1);
         expectFault("f01", 0);
         expectFault("H1\tR1", 2);
+        expectFault("H:", 1);
+        expectFault("H/", 1);
+        expectFault("H1:", 2);
+        expectFault("H1/", 2);
+        expectFault("H0H1H2H3H4H5H6H7H8H9H0H1H2H3H4H5H6H7H8H9", NONE);
+        expectFault("H0H1H2H3H4H5H6H7H8H9H0H1H2H3H4H5H6H7H8HH", 39);
+        expectFault("H0H1H2H3H4H5H6H7H8H9H0H1H2H3H4H5H6H7H8 H", 40);
         expectFault("H1R", 3);
         TrailerYards x = new TrailerYards();
         Check.finds(x, "fault", x.fault(0), NOTHING);

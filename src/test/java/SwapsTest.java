@@ -5,6 +5,7 @@ public final class SwapsTest {
     public static void main(String[] args) {
         swap();
         swapOfAlikeOnes();
+        swapByTheSum();
         pairs();
         pairsRefused();
         pairsOfAlikeOnes();
@@ -71,6 +72,30 @@ public final class SwapsTest {
         Check.due("END", x.asked(), 210);
     }
 
+    /** The lesser sum decides, not the lesser difference. */
+    private static void swapByTheSum() {
+        TrailerYards x = new TrailerYards();
+        x.trailer(0, 0, 0);
+        x.trailer(0, 0, 0);
+        x.hitch(0, 0);
+        x.hitch(1, 1);
+        x.way(0, 1, 100, 0);
+        x.way(1, 3, 100, 0);
+        x.way(1, 4, 100, 0);
+        x.way(0, 2, 100, 0);
+        x.way(2, 3, 100, 0);
+        x.way(2, 4, 90, 0);
+        Check.due("the least yard of alike sums", x.swap(0, 1, 4, 3), 0);
+        Check.due("END", x.asked(), 210);
+        x.ferry(0, 1, 300, 0);
+        x.ferry(0, 2, 300, 0);
+        // From 0 the next ferry goes far too late: they meet in 1 or 2.
+        Check.due("least sum of both", x.swap(0, 1, 4, 3), 2);
+        Check.due("END", x.asked(), 210);
+        Check.due("least sum of both", x.swap(0, 1, 3, 4), 2);
+        Check.due("END", x.asked(), 210);
+    }
+
     private static void pairs() {
         TrailerYards x = withTractors(0, 0, 2, 2);
         Check.row(x, 0, 0, 0, 2, 2, 0, 0);
@@ -107,6 +132,8 @@ public final class SwapsTest {
         Check.row(x, 0, 0, 0, 0, 0, 0, -1);
         Check.finds(x, "a home that is none", x.pairs(3, 0), UNLIKE);
         Check.row(x, 0, 0, 0, 0, 0, 0, 0);
+        Check.row(x, 0, 0, 0, 0, 0, 7, 7);
+        Check.due("homes 0 to 7", x.pairs(3, 0), 10);
         Check.due("no trailer", x.pairs(32 | 1, 0), STATE);
         Check.due("STATE ahead of NOTHING", x.pairs(32 | 16, 0), STATE);
         Check.finds(x, "no way to part them", x.pairs(16 | 1, 0), NOTHING);
@@ -115,7 +142,9 @@ public final class SwapsTest {
         x.asked();
         x.go(1, 1);
         Check.due("on the way", x.pairs(3, 0), STATE);
-        Check.finds(x, "pairs tells no asked, but is refused", x.pairs(16 | 1, 0), NOTHING);
+        x.go(0, 1);
+        Check.due("the first on the way", x.pairs(1 | 4, 0), STATE);
+        Check.finds(x, "pairs tells no asked, but is refused", x.pairs(16 | 4, 0), NOTHING);
         Check.due("asked is told by others", x.asked(), 0);
     }
 

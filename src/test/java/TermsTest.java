@@ -7,6 +7,7 @@ public final class TermsTest {
         force();
         forceAsKnown();
         detention();
+        detentionByYards();
         pence();
         Check.end();
     }
@@ -122,6 +123,19 @@ public final class TermsTest {
         x.terms(2, 0);
         Check.due("known too late for those days", x.detention(0), 4);
         expectDetention(x, 4, 900);
+    }
+
+    private static void detentionByYards() {
+        TrailerYards x = new TrailerYards();
+        Check.text(x, 0, "F05 D01 F7200 D7700 F31 D32");
+        x.terms(0, 0);
+        x.trailer(0, 7, 0);
+        x.later(201);
+        expectDetention(x, 1, 700);
+        x.lose(0);
+        x.find(0, 3);
+        x.later(62);
+        expectDetention(x, 2, 700 + 2 * 2);
     }
 
     private static void expectDetention(TrailerYards x, int times, int pence) {

@@ -32,6 +32,7 @@ public final class TrailersTractorsTest {
             Check.due("trailer", x.trailer(t % 4, t % 8, 100000), t);
         }
         Check.due("a 13th trailer", x.trailer(0, 0, 0), FULL);
+        Check.due("there is no 13th", x.told(12, 0), BAD);
         Check.due("BAD ahead of FULL", x.trailer(4, 0, 0), BAD);
         Check.due("count(1)", x.count(1), 12);
         Check.due("count(5)", x.count(5), 12);
@@ -105,6 +106,7 @@ public final class TrailersTractorsTest {
             Check.due("mark of kind 4", x.mark(t, 4), BAD);
         }
         Check.due("mark", x.mark(4, 1), BAD);
+        Check.due("mark", x.mark(12, 1), BAD);
         Check.due("mark", x.mark(-1, 1), BAD);
         x.cold(3, 0, 0);
         x.cold(3, 0, 3);
@@ -114,8 +116,10 @@ public final class TrailersTractorsTest {
             x.cold(3, 0, what);
         }
         Check.due("looks", x.mark(3, 3), 3);
+        x.trailer(2, 0, 0);
         x.later(98559);
         Check.due("days of the rented one", x.mark(2, 2), 69);
+        Check.due("days of one that came on day 1", x.mark(4, 2), 68);
     }
 
     private static void limit() {
