@@ -17,7 +17,7 @@ public final class TrailerYards {
     private static final int LEAST_AXLE = 60, MOST_AXLE = 120, LOADS = 6;
     private static final int MOST_LOOKED = 6, MOST_WEIGHT = 100, MOST_NEED = 30, MOST_RENTED = 9;
     private static final int CHANGE_MINUTES = 10;
-    private static final int NEVER = Integer.MAX_VALUE;
+    private static final int NEVER = 0x7fffffff;
 
     /* What items of TERMS are about: F of each yard, D of each yard, H, R. */
     private static final int FREE = 0, OWED = YARDS, HOURS = 2 * YARDS, REST = HOURS + 1, THINGS = REST + 1;
@@ -1566,7 +1566,7 @@ public final class TrailerYards {
 
     /** In what order to look for a lost trailer. */
     private static final class Search {
-        private final int[][] reached = new int[MOST_LOOKED + 1][YARDS];
+        private final int[][] reached = new int[MOST_LOOKED][YARDS];
         private final int[] weights = new int[YARDS];
         private final int[] trial = new int[MOST_LOOKED];
         private final int[] best = new int[MOST_LOOKED];
@@ -1684,10 +1684,9 @@ public final class TrailerYards {
                 shorter = false;
                 for (int spot = 0; spot < YARDS * YARDS; spot++) {
                     if (costs[spot] != NEVER) {
-                        shorter |= shorten(spot / YARDS, spot % YARDS, costs[spot]);
-                        if (brought[spot] > 0) {
-                            shorter |= shorten(spot % YARDS, spot / YARDS, -costs[spot]);
-                        }
+                        boolean there = shorten(spot / YARDS, spot % YARDS, costs[spot]);
+                        boolean back = brought[spot] > 0 && shorten(spot % YARDS, spot / YARDS, -costs[spot]);
+                        shorter = shorter || there || back;
                     }
                 }
             }
