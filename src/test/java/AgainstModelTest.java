@@ -1,15 +1,12 @@
-import java.lang.reflect.InvocationTargetException;
-import java.lang.reflect.Method;
 import java.util.ArrayList;
 import java.util.Arrays;
-import java.util.HashMap;
 import java.util.List;
-import java.util.Map;
 import java.util.Random;
 
 /** Many runs of calls, by a random source with a known seed, answered by the class and by the model alike. */
 public final class AgainstModelTest {
-    private static final int RUNS = 500, CALLS = 512;
+    private static final int RUNS = 1500, CALLS = 512;
+    private static final Calls OURS = new Calls(TrailerYards.class), THEIRS = new Calls(Model.class);
 
     /** For each call how often it is taken, and for each number the range from which it mostly comes. */
     private static final String[] CALLS_AND_RANGES = {
@@ -28,9 +25,10 @@ public final class AgainstModelTest {
 
     private static final String[] SIDE = {"asked", "pence", "upper", "lower", "finding"};
 
+    /** What is asked at the end of a run: each side and the digest. */
+    private static final int LAST_CALLS = SIDE.length + 1;
+
     private final Random random;
-    private final Map<String, Method> ours = new HashMap<>();
-    private final Map<String, Method> theirs = new HashMap<>();
     private final List<String[]> bag = new ArrayList<>();
     private final List<String> history = new ArrayList<>();
     private final int[] answered = new int[CALLS_AND_RANGES.length];
@@ -40,12 +38,6 @@ public final class AgainstModelTest {
 
     private AgainstModelTest(long seed) {
         random = new Random(seed);
-        for (Method m : TrailerYards.class.getMethods()) {
-            ours.put(m.getName(), m);
-        }
-        for (Method m : Model.class.getMethods()) {
-            theirs.put(m.getName(), m);
-        }
         for (String line : CALLS_AND_RANGES) {
             String[] words = line.split(" ");
             for (int i = 0; i < Integer.parseInt(words[1]); i++) {
@@ -54,7 +46,7 @@ public final class AgainstModelTest {
         }
     }
 
-    public static void main(String[] args) throws Exception {
+    public static void main(String[] args) {
         AgainstModelTest test = new AgainstModelTest(20261118);
         for (int run = 0; run < RUNS && !test.differs; run++) {
             test.run();
@@ -73,12 +65,12 @@ public final class AgainstModelTest {
         }
     }
 
-    private void run() throws Exception {
+    private void run() {
         x = new TrailerYards();
         model = new Model();
         history.clear();
         setUp();
-        while (history.size() < CALLS && !differs) {
+        while (history.size() < CALLS - LAST_CALLS && !differs) {
             int dice = random.nextInt(60);
             if (dice < 6) {
                 scene(dice);
@@ -86,10 +78,14 @@ public final class AgainstModelTest {
                 callAny();
             }
         }
+        for (String side : SIDE) {
+            compare(side);
+        }
+        compare("digest");
     }
 
     /** A few calls together that seldom come together by themselves. */
-    private void scene(int which) throws Exception {
+    private void scene(int which) {
         int t = random.nextInt(6);
         switch (which) {
             case 0:
@@ -119,7 +115,7 @@ public final class AgainstModelTest {
         }
     }
 
-    private void askPairs() throws Exception {
+    private void askPairs() {
         layRow(0, 6, 0, 7);
         int[] sets = {63, 15, 3, 51, 60, 5, 10, 48};
         call("pairs", sets[random.nextInt(sets.length)], 0);
@@ -127,11 +123,11 @@ public final class AgainstModelTest {
         int a = random.nextInt(6);
         int b = random.nextInt(6);
         call("swap", a, b, random.nextInt(8), random.nextInt(8));
-        int dawn = Math.min(99999, x.count(0) + random.nextInt(2000));
+        int dawn = Math.min(99999, model.count(0) + random.nextInt(2000));
         call("late", a, b, random.nextInt(8), random.nextInt(8), random.nextInt(2001), dawn);
     }
 
-    private void breakSeal(int t) throws Exception {
+    private void breakSeal(int t) {
         call("find", t, random.nextInt(8));
         call("seal", t, 3);
         for (int i = 0; i < 3; i++) {
@@ -145,7 +141,7 @@ public final class AgainstModelTest {
         call("hands", t);
     }
 
-    private void setUp() throws Exception {
+    private void setUp() {
         int joined = random.nextInt(24);
         int longest = random.nextBoolean() ? 600 : 60;
         for (int i = 0; i < joined; i++) {
@@ -172,7 +168,7 @@ public final class AgainstModelTest {
     }
 
     /** A row as those calls want it that take one, with gaps where it may be below nought. */
-    private void layRow(int r, int size, int least, int most) throws Exception {
+    private void layRow(int r, int size, int least, int most) {
         call("row", r, size);
         for (int i = 0; i < size; i++) {
             if (random.nextInt(3) > 0) {
@@ -182,7 +178,7 @@ public final class AgainstModelTest {
         }
     }
 
-    private void writeText() throws Exception {
+    private void writeText() {
         StringBuilder signs = new StringBuilder();
         int items = random.nextInt(5);
         for (int i = 0; i < items; i++) {
@@ -203,7 +199,7 @@ public final class AgainstModelTest {
         call("terms", t, random.nextInt(8));
     }
 
-    private void callAny() throws Exception {
+    private void callAny() {
         String[] words = bag.get(random.nextInt(bag.size()));
         int[] numbers = new int[words.length - 2];
         for (int i = 0; i < numbers.length; i++) {
@@ -221,27 +217,30 @@ public final class AgainstModelTest {
         return random.nextInt(5) == 0 ? (random.nextBoolean() ? least : most) : least + random.nextInt(most - least + 1);
     }
 
-    private void call(String name, int... numbers) throws Exception {
-        if (differs || history.size() >= CALLS) {
+    private void call(String name, int... numbers) {
+        if (differs || history.size() >= CALLS - LAST_CALLS) {
             return;
         }
-        history.add(name + Arrays.toString(numbers));
         long got = compare(name, numbers);
         if (got >= 0 || got == -9) {
             answered[indexOf(name)]++;
         }
-        for (String side : SIDE) {
-            compare(side);
+        if (random.nextBoolean()) {
+            ask(SIDE[random.nextInt(SIDE.length)]);
         }
-        if (history.size() % 16 == 0 || history.size() == CALLS) {
-            compare("digest");
-        }
-        int[] behind = {name.equals("pairs") ? 6 : 0, name.equals("look") ? 7 : 0, name.equals("rent") ? 41 : 0};
+        int[] behind = {name.equals("pairs") ? 6 : 0, name.equals("look") ? 7 : 0, name.equals("rent") ? 16 : 0};
         String[] asks = {"partner", "looked", "rented"};
         for (int a = 0; a < 3; a++) {
             for (int i = 0; i < behind[a]; i++) {
-                compare(asks[a], i);
+                ask(asks[a], i);
             }
+        }
+    }
+
+    /** Asks for what an earlier call told, while the object may be used. */
+    private void ask(String name, int... numbers) {
+        if (history.size() < CALLS - LAST_CALLS) {
+            compare(name, numbers);
         }
     }
 
@@ -254,23 +253,15 @@ public final class AgainstModelTest {
         throw new IllegalArgumentException(name);
     }
 
-    private long compare(String name, int... numbers) throws Exception {
-        long got = answer(ours.get(name), x, numbers);
-        long due = answer(theirs.get(name), model, numbers);
+    private long compare(String name, int... numbers) {
+        history.add(name + Arrays.toString(numbers));
+        long got = OURS.answer(x, name, numbers);
+        long due = THEIRS.answer(model, name, numbers);
         if (got != due && !differs) {
             differs = true;
             history.forEach(System.out::println);
             Check.due(name + Arrays.toString(numbers), got, due);
         }
         return got;
-    }
-
-    private static long answer(Method m, Object on, int[] numbers) throws IllegalAccessException, InvocationTargetException {
-        Object[] values = new Object[numbers.length];
-        for (int i = 0; i < numbers.length; i++) {
-            boolean isFlag = m.getParameterTypes()[i] == boolean.class;
-            values[i] = isFlag ? (Object) (numbers[i] != 0) : (Object) numbers[i];
-        }
-        return ((Number) m.invoke(on, values)).longValue();
     }
 }

@@ -7,16 +7,19 @@ final class Check {
 
     static void due(String what, long got, long want) {
         if (got != want) {
-            wrong++;
-            System.out.println(what + " answered " + got + ", due is " + want);
+            wrong(what + " answered " + got + ", due is " + want);
         }
     }
 
     static void holds(String what, boolean fact) {
         if (!fact) {
-            wrong++;
-            System.out.println(what + " does not hold");
+            wrong(what + " does not hold");
         }
+    }
+
+    static void wrong(String what) {
+        wrong++;
+        System.out.println(what);
     }
 
     /** A finding is answered, and it is the one that is due. */

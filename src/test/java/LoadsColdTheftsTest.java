@@ -157,27 +157,35 @@ public final class LoadsColdTheftsTest {
         Check.due("up", x.shift(0), 100);
     }
 
-    /** The lawful places are an interval, so nearest is up, down or here: each is looked at against all places. */
+    /** Where it is lawful is looked at for all places, with a new object for each law. */
     private static void shiftIsNearest() {
-        TrailerYards x = withTrailer();
-        int[][] loads = {{100, 90}, {10, 60}, {1000, 10}, {500, 130}};
-        for (int[] l : loads) {
-            x.load(0, l[0], l[1]);
-            for (int mk = 0; mk < 1500; mk += 70) {
-                x.law(mk, 1400 - mk);
-                for (int a = 60; a <= 120; a += 6) {
-                    int want = NONE;
-                    for (int b = 60; b <= 120; b++) {
-                        x.slide(0, b);
-                        boolean nearer = want == NONE || Math.abs(b - a) < Math.abs(want - a);
-                        if (x.lawful(0) == 1 && nearer) {
-                            want = b;
-                        }
-                    }
-                    x.slide(0, a);
-                    Check.due("shift", x.shift(0), want);
-                }
+        for (int mk = 0; mk < 1500; mk += 70) {
+            for (int loads = 1; loads <= 4; loads++) {
+                expectNearest(loads, mk, 1400 - mk);
             }
+        }
+    }
+
+    private static void expectNearest(int loads, int axle, int kingpin) {
+        int[][] all = {{100, 90}, {10, 60}, {1000, 10}, {500, 130}};
+        TrailerYards x = withTrailer();
+        x.law(Math.max(axle, 0), Math.max(kingpin, 0));
+        for (int i = 0; i < loads; i++) {
+            x.load(0, all[i][0], all[i][1]);
+        }
+        boolean[] lawful = new boolean[121];
+        for (int a = 60; a <= 120; a++) {
+            x.slide(0, a);
+            lawful[a] = x.lawful(0) == 1;
+        }
+        for (int a = 60; a <= 120; a += 6) {
+            int want = NONE;
+            for (int b = 60; b <= 120; b++) {
+                boolean nearer = want == NONE || Math.abs(b - a) < Math.abs(want - a);
+                want = lawful[b] && nearer ? b : want;
+            }
+            x.slide(0, a);
+            Check.due("shift", x.shift(0), want);
         }
     }
 
