@@ -113,6 +113,7 @@ public final class Bounds1RowsTextsYardsTest {
     }
 
     private static void comes() {
+        comesByAnyWays();
         comesBounds();
         comesBad();
         comesNothing();
@@ -133,12 +134,11 @@ public final class Bounds1RowsTextsYardsTest {
             run.due("row(" + r + ", 1)", 1);
         }
         run.due("count(6)", 6).after("trailer(1, 0, 0); park(0, 0)");
-        for (String r : new String[] {"-1", "6", "LEAST", "MOST"}) {
-            run.bad("row(" + r + ", 1); lay(" + r + ", 0, 1); tear(" + r + "); mean(" + r + "); cold(0, " + r + ", 0)");
-            run.bad("copy(" + r + ", 0, 0, 0, 0); copy(0, 0, " + r + ", 0, 0)");
-            run.bad("pairs(3, " + r + "); look(0, 0, " + r + "); pool(0, " + r + "); pool(" + r + ", 0)");
-            run.bad("rent(" + r + ", 0, 0, 0, 0)");
-        }
+        String[] outside = {"-1", "6", "LEAST", "MOST"};
+        run.badWith(outside, "row(#, 1); lay(#, 0, 1); tear(#); mean(#); cold(0, #, 0)");
+        run.badWith(outside, "copy(#, 0, 0, 0, 0); copy(0, 0, #, 0, 0)");
+        run.badWith(outside, "pairs(3, #); look(0, 0, #); pool(0, #); pool(#, 0)");
+        run.badWith(outside, "rent(#, 0, 0, 0, 0)");
     }
 
     private static void rowsHoldInts() {
@@ -154,9 +154,8 @@ public final class Bounds1RowsTextsYardsTest {
             run.due("text(" + t + ", 1)", 1);
         }
         run.due("count(7)", 4);
-        for (String t : new String[] {"-1", "4", "LEAST", "MOST"}) {
-            run.bad("text(" + t + ", 1); put(" + t + ", 0, 1); fault(" + t + "); terms(" + t + ", 0)");
-        }
+        String[] outside = {"-1", "4", "LEAST", "MOST"};
+        run.badWith(outside, "text(#, 1); put(#, 0, 1); fault(#); terms(#, 0)");
     }
 
     private static void textsHoldBytes() {
@@ -196,14 +195,13 @@ public final class Bounds1RowsTextsYardsTest {
         Run run = Run.terms("YARDS 0 .. 7.");
         run.after("way(0, 7, 1, 0); trailer(0, 0, 0); trailer(0, 7, 0); hitch(0, 0); park(1, 7); hitch(1, 1)");
         run.after("trailer(0, 0, 0); lose(2); row(0, 8)");
-        for (String y : new String[] {"-1", "8", "LEAST", "MOST"}) {
-            run.bad("way(0, " + y + ", 1, 0); way(" + y + ", 0, 1, 0); ferry(0, " + y + ", 1, 0); ferry(" + y + ", 0, 1, 0)");
-            run.bad("comes(0, 0, " + y + "); comes(" + y + ", 0, 0); toll(0, " + y + "); toll(" + y + ", 0)");
-            run.bad("trailer(0, " + y + ", 0); park(0, " + y + "); go(0, " + y + "); find(2, " + y + ")");
-            run.bad("force(0, " + y + ", 0, 0); force(1, " + y + ", 0, 0); look(2, " + y + ", 0)");
-            run.bad("swap(0, 1, " + y + ", 0); swap(0, 1, 0, " + y + ")");
-            run.bad("late(0, 1, " + y + ", 0, 0, 0); late(0, 1, 0, " + y + ", 0, 0)");
-        }
+        String[] outside = {"-1", "8", "LEAST", "MOST"};
+        run.badWith(outside, "way(0, #, 1, 0); way(#, 0, 1, 0); ferry(0, #, 1, 0); ferry(#, 0, 1, 0)");
+        run.badWith(outside, "comes(0, 0, #); comes(#, 0, 0); toll(0, #); toll(#, 0)");
+        run.badWith(outside, "trailer(0, #, 0); park(0, #); go(0, #); find(2, #)");
+        run.badWith(outside, "force(0, #, 0, 0); force(1, #, 0, 0); look(2, #, 0)");
+        run.badWith(outside, "swap(0, 1, #, 0); swap(0, 1, 0, #)");
+        run.badWith(outside, "late(0, 1, #, 0, 0, 0); late(0, 1, 0, #, 0, 0)");
         run.due("look(2, 7, 0)", 0).due("swap(0, 1, 7, 7)", 7).due("late(0, 1, 7, 7, 0, 0)", 1);
         run.due("force(0, 7, 0, 0)", 120).due("find(2, 7)", 1).due("go(0, 7)", 1).due("park(1, 0)", 1);
     }
@@ -290,7 +288,8 @@ public final class Bounds1RowsTextsYardsTest {
     // ---- promise 3
 
     private static void layBad() {
-        Run run = Run.promise(3, "BAD; NOTHING; BEYOND.").bad("lay(-1, 0, 0); lay(6, 0, 0); lay(LEAST, 99, 0); lay(MOST, 0, 0)");
+        Run run = Run.promise(3, "BAD; NOTHING; BEYOND.")
+            .bad("lay(-1, 0, 0); lay(6, 0, 0); lay(LEAST, 99, 0); lay(MOST, 0, 0)");
         run.tells("asked()", 0, 0);
     }
 
@@ -345,12 +344,14 @@ public final class Bounds1RowsTextsYardsTest {
     }
 
     private static void copySize() {
-        Run run = Run.promise(5, "SIZE: n below 0").row(0, 1, 2).finds(SIZE, "copy(0, 0, 0, 0, -1); copy(0, 0, 0, 0, LEAST)");
+        Run run = Run.promise(5, "SIZE: n below 0").row(0, 1, 2)
+            .finds(SIZE, "copy(0, 0, 0, 0, -1); copy(0, 0, 0, 0, LEAST)");
         run.finds(SIZE, "copy(1, 0, 0, 0, -1); copy(0, 0, 1, 0, -1); copy(0, 9, 0, 9, -1); copy(0, 2, 0, 2, -2)");
     }
 
     private static void copyNothing() {
-        Run run = Run.promise(5, "NOTHING: either").row(0, 1).finds(NOTHING, "copy(1, 0, 2, 0, 0); copy(0, 0, 1, 0, 0)");
+        Run run = Run.promise(5, "NOTHING: either").row(0, 1)
+            .finds(NOTHING, "copy(1, 0, 2, 0, 0); copy(0, 0, 1, 0, 0)");
         run.finds(NOTHING, "copy(1, 0, 0, 0, 0); copy(1, -1, 0, 0, 1); copy(0, 0, 1, 0, 99); copy(5, 0, 5, 0, 0)");
     }
 
@@ -384,7 +385,8 @@ public final class Bounds1RowsTextsYardsTest {
     }
 
     private static void textAbove40() {
-        Run run = Run.promise(6, "BAD: also n above 40").due("text(3, 40)", 40).bad("text(3, 41); text(3, MOST); text(4, 41)");
+        Run run = Run.promise(6, "BAD: also n above 40").due("text(3, 40)", 40)
+            .bad("text(3, 41); text(3, MOST); text(4, 41)");
         run.finds(BEYOND, "put(3, 40, 1)").due("put(3, 39, 1)", 1032);
     }
 
@@ -492,7 +494,8 @@ public final class Bounds1RowsTextsYardsTest {
     // ---- promise 9
 
     private static void laterByNone() {
-        Run.promise(9, "NOW is n minutes later: it.").due("later(0)", 0).due("later(1)", 1).due("later(7)", 8).due("later(0)", 8);
+        Run.promise(9, "NOW is n minutes later: it.").due("later(0)", 0).due("later(1)", 1).due("later(7)", 8)
+            .due("later(0)", 8);
     }
 
     private static void laterBelowNought() {
@@ -501,7 +504,8 @@ public final class Bounds1RowsTextsYardsTest {
 
     private static void laterBeyond() {
         Run run = Run.promise(9, "or beyond 99999").bad("later(100000); later(MOST)").after("later(5)");
-        run.bad("later(99995); later(MOST)").due("later(99994)", 99999).bad("later(1); later(MOST)").due("later(0)", 99999);
+        run.bad("later(99995); later(MOST)").due("later(99994)", 99999).bad("later(1); later(MOST)")
+            .due("later(0)", 99999);
     }
 
     // ---- promise 10
@@ -538,11 +542,15 @@ public final class Bounds1RowsTextsYardsTest {
 
     private static void ferryBounds() {
         Run run = Run.promise(11, "BAD: E, F, too").after("way(0, 7, 1, 0)");
-        run.bad("ferry(0, 7, 0, 0); ferry(0, 7, -1, 0); ferry(0, 7, 1441, 0); ferry(0, 7, LEAST, 0); ferry(0, 7, MOST, 0)");
-        run.bad("ferry(0, 7, 1, 1); ferry(0, 7, 10, 10); ferry(0, 7, 10, -1); ferry(0, 7, 1440, 1440); ferry(0, 7, 9, MOST)");
+        run.bad("ferry(0, 7, 0, 0); ferry(0, 7, -1, 0); ferry(0, 7, 1441, 0); ferry(0, 7, LEAST, 0)")
+            .bad("ferry(0, 7, MOST, 0)");
+        run.bad("ferry(0, 7, 1, 1); ferry(0, 7, 10, 10); ferry(0, 7, 10, -1); ferry(0, 7, 1440, 1440)")
+            .bad("ferry(0, 7, 9, MOST)");
         run.bad("ferry(0, 7, 10, LEAST); ferry(0, 7, 0, -1); ferry(0, 7, LEAST, LEAST)");
-        run.due("ferry(0, 7, 1, 0)", 1).due("comes(0, 5, 7)", 6).due("ferry(7, 0, 1440, 1439)", 1).due("comes(0, 5, 7)", 1440);
-        run.due("ferry(7, 0, 10, 9)", 1).due("comes(0, 5, 7)", 10).due("ferry(7, 0, 10, 0)", 1).due("comes(0, 5, 7)", 11);
+        run.due("ferry(0, 7, 1, 0)", 1).due("comes(0, 5, 7)", 6).due("ferry(7, 0, 1440, 1439)", 1)
+            .due("comes(0, 5, 7)", 1440);
+        run.due("ferry(7, 0, 10, 9)", 1).due("comes(0, 5, 7)", 10).due("ferry(7, 0, 10, 0)", 1)
+            .due("comes(0, 5, 7)", 11);
     }
 
     private static void ferryNothing() {
@@ -558,15 +566,28 @@ public final class Bounds1RowsTextsYardsTest {
 
     // ---- promise 12
 
+    private static void comesByAnyWays() {
+        Run run = Run.terms("the earliest minute by any WAYS one behind the other");
+        run.after("way(0, 7, 100, 9); way(0, 1, 1, 1); way(1, 7, 1, 1); way(7, 6, 1, 1); way(0, 6, 50, 8)");
+        run.due("comes(0, 0, 6)", 3).due("comes(6, 0, 0)", 3).due("toll(0, 6)", 3).due("toll(6, 0)", 3);
+        run = run.anew();
+        for (int y = 0; y < 7; y++) {
+            run.after("way(" + y + ", " + (y + 1) + ", 600, 999)");
+        }
+        run.due("comes(0, 0, 7)", 4200).due("comes(7, 99999, 0)", 104199).due("toll(7, 0)", 6993);
+    }
+
     private static void comesBounds() {
-        Run run = Run.promise(12, "at a minute (0 .. 99999)").after("way(0, 1, 600, 0); later(50)").due("comes(0, 0, 1)", 600);
+        Run run = Run.promise(12, "at a minute (0 .. 99999)").after("way(0, 1, 600, 0); later(50)")
+            .due("comes(0, 0, 1)", 600);
         run.due("comes(0, 99999, 1)", 100599);
         run.bad("comes(0, -1, 1); comes(0, 100000, 1); comes(0, LEAST, 1); comes(0, MOST, 1); comes(0, -1, 0)");
     }
 
     private static void comesBad() {
         Run run = Run.promise(12, "BAD; NOTHING");
-        run.bad("comes(-1, 0, 0); comes(8, 0, 0); comes(0, 0, -1); comes(0, 0, 8); comes(8, 0, 8); comes(0, 100000, 7)");
+        run.bad("comes(-1, 0, 0); comes(8, 0, 0); comes(0, 0, -1); comes(0, 0, 8); comes(8, 0, 8)")
+            .bad("comes(0, 100000, 7)");
     }
 
     private static void comesNothing() {
@@ -584,7 +605,8 @@ public final class Bounds1RowsTextsYardsTest {
     }
 
     private static void tollToItself() {
-        Run.promise(13, "LEAST TOLL").due("toll(0, 0)", 0).after("way(7, 0, 1, 9)").due("toll(7, 7)", 0).due("toll(0, 7)", 9);
+        Run.promise(13, "LEAST TOLL").due("toll(0, 0)", 0).after("way(7, 0, 1, 9)").due("toll(7, 7)", 0)
+            .due("toll(0, 7)", 9);
     }
 
     private static void tollBad() {

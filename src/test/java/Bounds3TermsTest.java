@@ -55,27 +55,33 @@ public final class Bounds3TermsTest {
     private static void termsOfNone() {
         Run run = Run.terms("TERMS are a TEXT's items, with blanks (32) ahead, between, behind as many as wanted");
         run.after("text(0, 0); text(1, 40)").due("terms(0, 0)", 0).due("terms(1, 0)", 1).due("count(4)", 2);
-        run.due("force(2, 0, 0, 0)", 600).text(2, "  H7   R8  F01D02 ").due("terms(2, 0)", 2).due("force(2, 0, 0, 0)", 7);
+        run.due("force(2, 0, 0, 0)", 600).text(2, "  H7   R8  F01D02 ").due("terms(2, 0)", 2)
+            .due("force(2, 0, 0, 0)", 7);
         run.due("force(3, 0, 0, 0)", 8).due("force(0, 0, 0, 0)", 1).due("force(1, 0, 0, 0)", 2);
     }
 
     private static void termsDays() {
         Run run = Run.promise(28, "in force from a DAY (0 .. 69) on").text(0, "H7").due("terms(0, 69)", 0);
-        run.due("force(2, 0, 68, 69)", 600).due("force(2, 0, 69, 69)", 7).due("terms(0, 0)", 1).due("force(2, 0, 0, 0)", 7);
+        run.due("force(2, 0, 68, 69)", 600).due("force(2, 0, 69, 69)", 7).due("terms(0, 0)", 1)
+            .due("force(2, 0, 0, 0)", 7);
     }
 
     private static void termsBad() {
-        Run run = Run.promise(28, "BAD; FULL; NOTHING; STATE").text(0, "H7").bad("terms(0, -1); terms(0, 70); terms(0, LEAST)");
-        run.bad("terms(0, MOST); terms(-1, 0); terms(4, 0); terms(1, 70); terms(1, -1)").text(1, "H").bad("terms(1, 70)");
+        Run run = Run.promise(28, "BAD; FULL; NOTHING; STATE").text(0, "H7")
+            .bad("terms(0, -1); terms(0, 70); terms(0, LEAST)");
+        run.bad("terms(0, MOST); terms(-1, 0); terms(4, 0); terms(1, 70); terms(1, -1)").text(1, "H")
+            .bad("terms(1, 70)");
     }
 
     private static void termsFull() {
-        Run run = Run.terms("(20 TERMS at most ever)").text(0, "H7").text(1, "H").times(19, "terms(0, 0)").due("terms(0, 0)", 19);
+        Run run = Run.terms("(20 TERMS at most ever)").text(0, "H7").text(1, "H").times(19, "terms(0, 0)")
+            .due("terms(0, 0)", 19);
         run.full("terms(0, 0); terms(1, 0); terms(2, 0)").bad("terms(0, 70); terms(4, 0)").due("count(4)", 20);
     }
 
     private static void termsNothing() {
-        Run run = Run.promise(28, "NOTHING; STATE: the TEXT has a FAULT. (STATE behind NOTHING.)").finds(NOTHING, "terms(0, 0)");
+        Run run = Run.promise(28, "NOTHING; STATE: the TEXT has a FAULT. (STATE behind NOTHING.)")
+            .finds(NOTHING, "terms(0, 0)");
         run.finds(NOTHING, "terms(3, 69)").text(3, "H").state("terms(3, 69)").finds(NOTHING, "terms(2, 0)");
     }
 
@@ -91,13 +97,16 @@ public final class Bounds3TermsTest {
         Run run = Run.terms("D (68) y n: then n pence are owed for each hour begun (one to four digits)");
         run.text(0, "F00F10001F79999D00D1012D79999H0").after("terms(0, 0)");
         run.due("force(0, 0, 0, 0)", 0).due("force(0, 1, 0, 0)", 1).due("force(0, 7, 0, 0)", 9999);
-        run.due("force(1, 0, 0, 0)", 0).due("force(1, 1, 0, 0)", 12).due("force(1, 7, 0, 0)", 9999).due("force(2, 0, 0, 0)", 0);
+        run.due("force(1, 0, 0, 0)", 0).due("force(1, 1, 0, 0)", 12).due("force(1, 7, 0, 0)", 9999)
+            .due("force(2, 0, 0, 0)", 0);
         run.told("H9999R0090", 0).due("force(2, 0, 0, 0)", 9999).due("force(3, 0, 0, 0)", 90);
-        run.told("R1F2999D2100", 0).due("force(3, 0, 0, 0)", 1).due("force(0, 2, 0, 0)", 999).due("force(1, 2, 0, 0)", 100);
+        run.told("R1F2999D2100", 0).due("force(3, 0, 0, 0)", 1).due("force(0, 2, 0, 0)", 999)
+            .due("force(1, 2, 0, 0)", 100);
     }
 
     private static void termsKept() {
-        Run run = Run.promise(28, "their number").text(0, "H7").due("terms(0, 0)", 0).text(0, "H8").due("force(2, 0, 0, 0)", 7);
+        Run run = Run.promise(28, "their number").text(0, "H7").due("terms(0, 0)", 0).text(0, "H8")
+            .due("force(2, 0, 0, 0)", 7);
         run.due("terms(0, 0)", 1).due("fault(0)", -9).text(1, "H9").due("fault(1)", -9).due("force(2, 0, 0, 0)", 8);
     }
 
@@ -109,24 +118,30 @@ public final class Bounds3TermsTest {
             run.due("force(0, " + y + ", 0, 0)", 120).due("force(1, " + y + ", 69, 69)", 0);
         }
         run.due("force(2, 0, 0, 0)", 600).due("force(3, 0, 69, 69)", 480).told("F01D01", 0);
-        run.due("force(0, 1, 0, 0)", 120).due("force(1, 7, 0, 0)", 0).due("force(2, 0, 0, 0)", 600).due("force(3, 0, 0, 0)", 480);
+        run.due("force(0, 1, 0, 0)", 120).due("force(1, 7, 0, 0)", 0).due("force(2, 0, 0, 0)", 600)
+            .due("force(3, 0, 0, 0)", 480);
     }
 
     private static void toldOnTheLatterOrAhead() {
         Run run = Run.terms("of TERMS told on the latter or ahead of it").after("later(2880)").told("H7", 0);
-        run.due("force(2, 0, 0, 1)", 600).due("force(2, 0, 0, 2)", 7).due("force(2, 0, 0, 3)", 7).due("force(2, 0, 0, 69)", 7);
+        run.due("force(2, 0, 0, 1)", 600).due("force(2, 0, 0, 2)", 7).due("force(2, 0, 0, 3)", 7)
+            .due("force(2, 0, 0, 69)", 7);
         run.due("force(2, 0, 69, 0)", 600);
     }
 
     private static void fromTheFormerOrAhead() {
         Run run = Run.terms("in force from the former or ahead of it").told("H7", 5).due("force(2, 0, 4, 0)", 600);
-        run.due("force(2, 0, 5, 0)", 7).due("force(2, 0, 6, 0)", 7).due("force(2, 0, 69, 0)", 7).due("force(2, 0, 0, 69)", 600);
+        run.due("force(2, 0, 5, 0)", 7).due("force(2, 0, 6, 0)", 7).due("force(2, 0, 69, 0)", 7)
+            .due("force(2, 0, 0, 69)", 600);
     }
 
     private static void latestFromDay() {
-        Run run = Run.terms("the last item of the TERMS with the latest from-DAY").told("H7", 5).told("H8", 4).told("H9", 6);
-        run.due("force(2, 0, 3, 0)", 600).due("force(2, 0, 4, 0)", 8).due("force(2, 0, 5, 0)", 7).due("force(2, 0, 6, 0)", 9);
-        run.after("later(1440)").told("H10", 5).due("force(2, 0, 5, 0)", 7).due("force(2, 0, 5, 1)", 10).due("force(2, 0, 6, 1)", 9);
+        Run run = Run.terms("the last item of the TERMS with the latest from-DAY").told("H7", 5).told("H8", 4)
+            .told("H9", 6);
+        run.due("force(2, 0, 3, 0)", 600).due("force(2, 0, 4, 0)", 8).due("force(2, 0, 5, 0)", 7)
+            .due("force(2, 0, 6, 0)", 9);
+        run.after("later(1440)").told("H10", 5).due("force(2, 0, 5, 0)", 7).due("force(2, 0, 5, 1)", 10)
+            .due("force(2, 0, 6, 1)", 9);
     }
 
     private static void toldLastOfAlikeOnes() {
@@ -136,24 +151,24 @@ public final class Bounds3TermsTest {
     }
 
     private static void lastItem() {
-        Run run = Run.terms("the last item of the TERMS").told("H1H2F31F32D35F34D36R1H3R2", 0).due("force(2, 0, 0, 0)", 3);
+        Run run = Run.terms("the last item of the TERMS").told("H1H2F31F32D35F34D36R1H3R2", 0)
+            .due("force(2, 0, 0, 0)", 3);
         run.due("force(0, 3, 0, 0)", 4).due("force(1, 3, 0, 0)", 6).due("force(3, 0, 0, 0)", 2);
     }
 
     private static void allAboutTheSameThing() {
         Run run = Run.terms("of all items about the same thing").told("H7", 3).told("R8", 4).told("F29", 5);
-        run.due("force(2, 0, 5, 0)", 7).due("force(3, 0, 5, 0)", 8).due("force(0, 2, 5, 0)", 9).due("force(1, 2, 5, 0)", 0);
+        run.due("force(2, 0, 5, 0)", 7).due("force(3, 0, 5, 0)", 8).due("force(0, 2, 5, 0)", 9)
+            .due("force(1, 2, 5, 0)", 0);
         run.due("force(0, 1, 5, 0)", 120).due("force(0, 3, 5, 0)", 120);
     }
 
     private static void forceBad() {
         Run run = Run.promise(29, "as known on one (0 .. 69). BAD.").bad("force(-1, 0, 0, 0); force(4, 0, 0, 0)");
         run.bad("force(LEAST, 0, 0, 0); force(MOST, 0, 0, 0)");
-        for (int what = 0; what < 4; what++) {
-            String ahead = "force(" + what + ", 0, ";
-            run.bad(ahead + "-1, 0); " + ahead + "70, 0); " + ahead + "0, -1); " + ahead + "0, 70)");
-            run.bad(ahead + "LEAST, 0); " + ahead + "MOST, 0); " + ahead + "0, LEAST); " + ahead + "0, MOST)");
-        }
+        String[] outside = {"-1", "70", "LEAST", "MOST"};
+        run.badWith(outside, "force(0, 0, #, 0); force(1, 0, #, 0); force(2, 0, #, 0); force(3, 0, #, 0)");
+        run.badWith(outside, "force(0, 0, 0, #); force(1, 0, 0, #); force(2, 0, 0, #); force(3, 0, 0, #)");
         run.bad("force(0, -1, 0, 0); force(0, 8, 0, 0); force(1, -1, 0, 0); force(1, 8, 0, 0); force(0, LEAST, 0, 0)");
         run.due("force(0, 7, 69, 0)", 120).due("force(1, 0, 0, 69)", 0);
     }
@@ -199,13 +214,15 @@ public final class Bounds3TermsTest {
     }
 
     private static void detentionTillHitchedOrLost() {
-        Run run = owing(Run.terms("from an entry 0 till the next entry 1 or 2"), "F00D07D11F10").after("later(60); hitch(0, 0); later(500)");
+        Run run = owing(Run.terms("from an entry 0 till the next entry 1 or 2"), "F00D07D11F10")
+            .after("later(60); hitch(0, 0); later(500)");
         expect(run, 1, 7);
         run = owing(run.anew(), "F00D07").after("later(60); lose(0); later(500)");
         expect(run, 1, 7);
         run = owing(run.anew(), "F00D07").after("seal(0, 3); later(60); seal(0, 4); later(1); seal(0, 5); later(60)");
         expect(run, 1, 21);
-        run = owing(run.anew(), "F00D07").after("trailer(0, 0, 0); later(30); hitch(0, 1); later(30); lose(1); later(1)");
+        run = owing(run.anew(), "F00D07")
+            .after("trailer(0, 0, 0); later(30); hitch(0, 1); later(30); lose(1); later(1)");
         expect(run, 1, 14);
         run.due("detention(1)", 1).due("pence()", 7);
     }
@@ -231,7 +248,8 @@ public final class Bounds3TermsTest {
     }
 
     private static void detentionOfEachTime() {
-        Run run = owing(Run.promise(30, "how many times it stood beyond what is free"), "F010D07F310D39").after("later(10); hitch(0, 0)");
+        Run run = owing(Run.promise(30, "how many times it stood beyond what is free"), "F010D07F310D39")
+            .after("later(10); hitch(0, 0)");
         expect(run, 0, 0);
         expect(run.after("drop(0); later(11); hitch(0, 0); park(0, 3); drop(0); later(10)"), 1, 7);
         expect(run.after("later(1)"), 2, 16);
@@ -246,7 +264,8 @@ public final class Bounds3TermsTest {
     }
 
     private static void detentionBad() {
-        Run run = Run.promise(30, "BAD").bad("detention(0)").after("trailer(0, 0, 0)").bad("detention(1); detention(-1)");
+        Run run = Run.promise(30, "BAD").bad("detention(0)").after("trailer(0, 0, 0)")
+            .bad("detention(1); detention(-1)");
         run.bad("detention(LEAST); detention(MOST)");
     }
 
@@ -257,7 +276,8 @@ public final class Bounds3TermsTest {
     }
 
     private static void penceOfTheLatest() {
-        Run run = owing(Run.promise(31, "What the latest detention() that was not refused told"), "F00D07").after("later(1)");
+        Run run = owing(Run.promise(31, "What the latest detention() that was not refused told"), "F00D07")
+            .after("later(1)");
         run.due("pence()", 0).due("detention(0)", 1).due("pence()", 7).bad("detention(1)").due("pence()", 7);
         run.after("trailer(0, 1, 0)").due("detention(1)", 0).due("pence()", 0).due("detention(0)", 1).due("pence()", 7);
         run.after("later(60)").due("pence()", 7);

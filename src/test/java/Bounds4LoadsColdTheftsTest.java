@@ -106,16 +106,21 @@ public final class Bounds4LoadsColdTheftsTest {
 
     private static void lawBounds() {
         Run run = Run.promise(32, "MA, MK (0 .. 100000 each): 1. BAD.").after("trailer(0, 0, 0)");
-        run.bad("law(-1, 0); law(0, -1); law(100001, 0); law(0, 100001); law(LEAST, 0); law(0, LEAST); law(MOST, 0); law(0, MOST)");
+        run.bad("law(-1, 0); law(0, -1); law(100001, 0); law(0, 100001); law(LEAST, 0); law(0, LEAST); law(MOST, 0)")
+            .bad("law(0, MOST)");
         run.each("law(0, 0); law(100000, 100000); law(0, 100000); law(100000, 0)", 1);
     }
 
     private static void lawOfEach() {
-        Run run = withTrailer(Run.promise(32, "MA, MK (0 .. 100000 each)")).after("load(0, 300, 50)").due("law(150, 150)", 1);
-        run.due("lawful(0)", 1).after("law(149, 100000)").due("lawful(0)", 0).after("law(100000, 149)").due("lawful(0)", 0);
-        run.times(5, "load(0, 20000, 100)").after("slide(0, 100); law(100000, 100000)").due("lawful(0)", 0).after("unload(0)");
+        Run run = withTrailer(Run.promise(32, "MA, MK (0 .. 100000 each)")).after("load(0, 300, 50)")
+            .due("law(150, 150)", 1);
+        run.due("lawful(0)", 1).after("law(149, 100000)").due("lawful(0)", 0).after("law(100000, 149)")
+            .due("lawful(0)", 0);
+        run.times(5, "load(0, 20000, 100)").after("slide(0, 100); law(100000, 100000)").due("lawful(0)", 0)
+            .after("unload(0)");
         run.times(5, "load(0, 20000, 100)").due("lawful(0)", 1).after("law(99999, 0)").due("lawful(0)", 0);
-        run.after("unload(0)").times(5, "load(0, 20000, 0)").due("lawful(0)", 0).after("law(0, 100000)").due("lawful(0)", 1);
+        run.after("unload(0)").times(5, "load(0, 20000, 0)").due("lawful(0)", 0).after("law(0, 100000)")
+            .due("lawful(0)", 1);
     }
 
     // ---- promise 33
@@ -128,38 +133,47 @@ public final class Bounds4LoadsColdTheftsTest {
     }
 
     private static void loadBad() {
-        Run run = Run.promise(33, "BAD; FULL").bad("load(0, 1, 0)").after("trailer(0, 0, 0)").bad("load(1, 1, 0); load(-1, 1, 0)");
+        Run run = Run.promise(33, "BAD; FULL").bad("load(0, 1, 0)").after("trailer(0, 0, 0)")
+            .bad("load(1, 1, 0); load(-1, 1, 0)");
         run.bad("load(0, -1, 0); load(0, LEAST, 0); load(0, MOST, 0); load(0, 1, LEAST); load(0, 1, MOST)");
-        run.times(6, "load(0, 1, 0)").bad("load(0, 0, 0); load(0, 20001, 0); load(0, 1, 131); load(0, 1, -1); load(1, 1, 0)");
+        run.times(6, "load(0, 1, 0)")
+            .bad("load(0, 0, 0); load(0, 20001, 0); load(0, 1, 131); load(0, 1, -1); load(1, 1, 0)");
     }
 
     private static void loadFull() {
-        Run run = withTrailer(Run.terms("LOADS (6 at most)")).times(5, "load(0, 20000, 130)").due("load(0, 20000, 130)", 6);
-        run.full("load(0, 1, 0); load(0, 20000, 130)").asks("told(0, 6)", 6).after("trailer(0, 0, 0)").due("load(1, 1, 0)", 1);
+        Run run = withTrailer(Run.terms("LOADS (6 at most)")).times(5, "load(0, 20000, 130)")
+            .due("load(0, 20000, 130)", 6);
+        run.full("load(0, 1, 0); load(0, 20000, 130)").asks("told(0, 6)", 6).after("trailer(0, 0, 0)")
+            .due("load(1, 1, 0)", 1);
         run.after("unload(0)").due("load(0, 1, 0)", 1);
     }
 
     // ---- promise 34
 
     private static void unloadAll() {
-        Run run = withTrailer(Run.promise(34, "All LOADS go: how many there were.")).due("unload(0)", 0).times(6, "load(0, 9, 9)");
+        Run run = withTrailer(Run.promise(34, "All LOADS go: how many there were.")).due("unload(0)", 0)
+            .times(6, "load(0, 9, 9)");
         run.due("unload(0)", 6).asks("told(0, 6)", 0).after("weight(0, true)").due("upper()", 0).due("lower()", 1);
         run.due("unload(0)", 0).after("load(0, 3, 100); weight(0, false)").due("upper()", 3);
     }
 
     private static void unloadBad() {
-        Run run = Run.promise(34, "BAD").bad("unload(0)").after("trailer(0, 0, 0)").bad("unload(1); unload(-1); unload(LEAST); unload(MOST)");
+        Run run = Run.promise(34, "BAD").bad("unload(0)").after("trailer(0, 0, 0)")
+            .bad("unload(1); unload(-1); unload(LEAST); unload(MOST)");
     }
 
     // ---- promise 35
 
     private static void slideBounds() {
-        Run run = withTrailer(Run.terms("its AXLE at A (60 .. 120; 100 at first)")).asks("told(0, 5)", 100).due("slide(0, 60)", 100);
-        run.due("slide(0, 120)", 60).due("slide(0, 120)", 120).bad("slide(0, 59); slide(0, 121)").asks("told(0, 5)", 120);
+        Run run = withTrailer(Run.terms("its AXLE at A (60 .. 120; 100 at first)")).asks("told(0, 5)", 100)
+            .due("slide(0, 60)", 100);
+        run.due("slide(0, 120)", 60).due("slide(0, 120)", 120).bad("slide(0, 59); slide(0, 121)")
+            .asks("told(0, 5)", 120);
     }
 
     private static void slideBad() {
-        Run run = Run.promise(35, "BAD").bad("slide(0, 60)").after("trailer(0, 0, 0)").bad("slide(1, 60); slide(-1, 60)");
+        Run run = Run.promise(35, "BAD").bad("slide(0, 60)").after("trailer(0, 0, 0)")
+            .bad("slide(1, 60); slide(-1, 60)");
         run.bad("slide(0, 0); slide(0, -1); slide(0, LEAST); slide(0, MOST)").due("slide(0, 100)", 100);
     }
 
@@ -202,7 +216,8 @@ public final class Bounds4LoadsColdTheftsTest {
     }
 
     private static void weightGreatest() {
-        Run run = withTrailer(Run.promise(36, "told by upper(), lower(): 1")).times(6, "load(0, 20000, 130)").after("slide(0, 60)");
+        Run run = withTrailer(Run.promise(36, "told by upper(), lower(): 1")).times(6, "load(0, 20000, 130)")
+            .after("slide(0, 60)");
         expectWeight(run, false, 260000, 1);
         expectWeight(run, true, -140000, 1);
         run.after("slide(0, 119)");
@@ -211,7 +226,8 @@ public final class Bounds4LoadsColdTheftsTest {
     }
 
     private static void weightBad() {
-        Run run = Run.promise(36, "BAD").bad("weight(0, false); weight(0, true)").after("trailer(0, 0, 0); load(0, 1, 1); weight(0, false)");
+        Run run = Run.promise(36, "BAD").bad("weight(0, false); weight(0, true)")
+            .after("trailer(0, 0, 0); load(0, 1, 1); weight(0, false)");
         run.bad("weight(1, false); weight(1, true); weight(-1, true); weight(LEAST, false); weight(MOST, true)");
         run.due("upper()", 1).due("lower()", 100);
     }
@@ -219,30 +235,39 @@ public final class Bounds4LoadsColdTheftsTest {
     // ---- promise 37
 
     private static void lawfulEmpty() {
-        withTrailer(Run.promise(37, "Whether a TRAILER is LAWFUL: 1, 0.")).after("law(0, 0)").due("lawful(0)", 1).due("shift(0)", 100);
+        withTrailer(Run.promise(37, "Whether a TRAILER is LAWFUL: 1, 0.")).after("law(0, 0)").due("lawful(0)", 1)
+            .due("shift(0)", 100);
     }
 
     private static void lawfulAxle() {
-        Run run = withTrailer(Run.terms("if the AXLE has no more than MA")).after("load(0, 60, 10); slide(0, 60); law(10, 1000)");
-        run.due("lawful(0)", 1).after("law(9, 1000)").due("lawful(0)", 0).after("load(0, 1, 1); law(10, 1000)").due("lawful(0)", 0);
-        run.after("law(11, 1000)").due("lawful(0)", 1).after("unload(0); law(0, 1000)").due("lawful(0)", 1).after("load(0, 1, 1)");
+        Run run = withTrailer(Run.terms("if the AXLE has no more than MA"))
+            .after("load(0, 60, 10); slide(0, 60); law(10, 1000)");
+        run.due("lawful(0)", 1).after("law(9, 1000)").due("lawful(0)", 0).after("load(0, 1, 1); law(10, 1000)")
+            .due("lawful(0)", 0);
+        run.after("law(11, 1000)").due("lawful(0)", 1).after("unload(0); law(0, 1000)").due("lawful(0)", 1)
+            .after("load(0, 1, 1)");
         run.due("lawful(0)", 0);
     }
 
     private static void lawfulKingpin() {
-        Run run = withTrailer(Run.terms("the KINGPIN no more than MK")).after("load(0, 60, 10); slide(0, 60); law(1000, 50)");
-        run.due("lawful(0)", 1).after("law(1000, 49)").due("lawful(0)", 0).after("load(0, 1, 59); law(1000, 50)").due("lawful(0)", 0);
-        run.after("law(1000, 51)").due("lawful(0)", 1).after("unload(0); load(0, 9, 60); law(1000, 0)").due("lawful(0)", 1);
+        Run run = withTrailer(Run.terms("the KINGPIN no more than MK"))
+            .after("load(0, 60, 10); slide(0, 60); law(1000, 50)");
+        run.due("lawful(0)", 1).after("law(1000, 49)").due("lawful(0)", 0).after("load(0, 1, 59); law(1000, 50)")
+            .due("lawful(0)", 0);
+        run.after("law(1000, 51)").due("lawful(0)", 1).after("unload(0); load(0, 9, 60); law(1000, 0)")
+            .due("lawful(0)", 1);
         run.after("load(0, 1, 59)").due("lawful(0)", 0);
     }
 
     private static void lawfulNotLessThanNought() {
-        Run run = withTrailer(Run.terms("and not less than 0")).after("load(0, 100, 100)").due("lawful(0)", 1).after("load(0, 1, 101)");
+        Run run = withTrailer(Run.terms("and not less than 0")).after("load(0, 100, 100)").due("lawful(0)", 1)
+            .after("load(0, 1, 101)");
         run.due("lawful(0)", 0).after("slide(0, 101)").due("lawful(0)", 1).after("slide(0, 99)").due("lawful(0)", 0);
     }
 
     private static void lawfulBad() {
-        Run run = Run.promise(37, "BAD").bad("lawful(0)").after("trailer(0, 0, 0)").bad("lawful(1); lawful(-1); lawful(LEAST); lawful(MOST)");
+        Run run = Run.promise(37, "BAD").bad("lawful(0)").after("trailer(0, 0, 0)")
+            .bad("lawful(1); lawful(-1); lawful(LEAST); lawful(MOST)");
     }
 
     // ---- promise 38
@@ -265,17 +290,24 @@ public final class Bounds4LoadsColdTheftsTest {
     private static void shiftToTheEnds() {
         Run run = withTrailer(Run.terms("SHIFT: the A' of 60 to 120")).after("load(0, 10, 120)").due("shift(0)", 120);
         run.after("slide(0, 60)").due("shift(0)", 120).after("unload(0); load(0, 10, 121)").due("shift(0)", NONE);
-        run.after("unload(0); load(0, 10, 30); slide(0, 120); law(5, 5)").due("shift(0)", 60).after("slide(0, 60)").due("shift(0)", 60);
-        run.after("slide(0, 120); law(5, 4)").due("shift(0)", NONE);
+        run.after("unload(0); load(0, 10, 30); slide(0, 120); law(5, 5)").due("shift(0)", 60).after("slide(0, 60)")
+            .due("shift(0)", 60);
+        run.after("slide(0, 120); law(5, 4)").due("shift(0)", NONE).after("slide(0, 100); law(6, 4)")
+            .due("shift(0)", NONE);
+        run.after("unload(0); load(0, 10, 121); law(20000, 20000)").due("shift(0)", NONE).after("slide(0, 120)")
+            .due("shift(0)", NONE);
+        run.after("slide(0, 61)").due("shift(0)", NONE).after("load(0, 10, 119)").due("shift(0)", 120);
     }
 
     private static void shiftNone() {
-        Run run = withTrailer(Run.promise(38, "NONE: none")).after("law(0, 0); load(0, 1, 0)").due("shift(0)", NONE).after("law(0, 1)");
+        Run run = withTrailer(Run.promise(38, "NONE: none")).after("law(0, 0); load(0, 1, 0)").due("shift(0)", NONE)
+            .after("law(0, 1)");
         run.due("shift(0)", 100);
     }
 
     private static void shiftBad() {
-        Run run = Run.promise(38, "BAD").bad("shift(0)").after("trailer(0, 0, 0)").bad("shift(1); shift(-1); shift(LEAST); shift(MOST)");
+        Run run = Run.promise(38, "BAD").bad("shift(0)").after("trailer(0, 0, 0)")
+            .bad("shift(1); shift(-1); shift(LEAST); shift(MOST)");
     }
 
     // ---- promise 39
@@ -285,7 +317,8 @@ public final class Bounds4LoadsColdTheftsTest {
     }
 
     private static void coldAbove() {
-        Run run = Run.terms("LEAST beyond a limit: readings above it").after("trailer(1, 0, 0); trailer(3, 0, 0)").row(0, 5);
+        Run run = Run.terms("LEAST beyond a limit: readings above it").after("trailer(1, 0, 0); trailer(3, 0, 0)")
+            .row(0, 5);
         expectCold(run, 0, 0, 0, 0);
         expectCold(run.row(0, 6), 0, 10, 10, 10);
         expectCold(run.row(0, -18), 1, 0, 0, 0);
@@ -302,7 +335,8 @@ public final class Bounds4LoadsColdTheftsTest {
     }
 
     private static void coldWorst() {
-        Run run = Run.terms("WORST: the longest row of readings one behind the other that are above it, or gaps.").after("trailer(1, 0, 0)");
+        Run run = Run.terms("WORST: the longest row of readings one behind the other that are above it, or gaps.")
+            .after("trailer(1, 0, 0)");
         expectCold(run.row(0, 6, 5, 6, GAP, 4, 9, 9), 0, 40, 50, 20);
         expectCold(run.row(0, GAP, 6, GAP, 5, 6, 6), 0, 30, 50, 30);
         expectCold(run.row(0, 5, 6, 6, 6), 0, 30, 30, 30);
@@ -331,15 +365,18 @@ public final class Bounds4LoadsColdTheftsTest {
     }
 
     private static void coldNothing() {
-        Run run = Run.promise(39, "NOTHING").after("trailer(1, 0, 0); trailer(3, 0, 0)").finds(NOTHING, "cold(0, 0, 0); cold(1, 5, 2)");
+        Run run = Run.promise(39, "NOTHING").after("trailer(1, 0, 0); trailer(3, 0, 0)")
+            .finds(NOTHING, "cold(0, 0, 0); cold(1, 5, 2)");
         run.row(5, 1).after("tear(5)").finds(NOTHING, "cold(1, 5, 1)").due("mark(1, 3)", 0);
     }
 
     // ---- promise 40
 
     private static void meanCut() {
-        Run run = Run.promise(40, "cut, told by asked(): 1").row(0, 2, 3).tells("mean(0)", 1, 2).row(0, 5).tells("mean(0)", 1, 5);
-        run.row(0, -2, -3).tells("mean(0)", 1, -2).row(0, 1, 1, 0).tells("mean(0)", 1, 0).row(0, -1, 0).tells("mean(0)", 1, 0);
+        Run run = Run.promise(40, "cut, told by asked(): 1").row(0, 2, 3).tells("mean(0)", 1, 2).row(0, 5)
+            .tells("mean(0)", 1, 5);
+        run.row(0, -2, -3).tells("mean(0)", 1, -2).row(0, 1, 1, 0).tells("mean(0)", 1, 0).row(0, -1, 0)
+            .tells("mean(0)", 1, 0);
         run.row(0, 0).tells("mean(0)", 1, 0);
     }
 
@@ -362,11 +399,13 @@ public final class Bounds4LoadsColdTheftsTest {
     }
 
     private static void meanNothing() {
-        Run.promise(40, "NOTHING").finds(NOTHING, "mean(0); mean(5)").row(0, 4).after("tear(0)").finds(NOTHING, "mean(0)");
+        Run.promise(40, "NOTHING").finds(NOTHING, "mean(0); mean(5)").row(0, 4).after("tear(0)")
+            .finds(NOTHING, "mean(0)");
     }
 
     private static void meanNought() {
-        Run run = Run.promise(40, "NOUGHT").after("row(0, 0)").finds(NOUGHT, "mean(0)").row(0, GAP, GAP).finds(NOUGHT, "mean(0)");
+        Run run = Run.promise(40, "NOUGHT").after("row(0, 0)").finds(NOUGHT, "mean(0)").row(0, GAP, GAP)
+            .finds(NOUGHT, "mean(0)");
         run.row(0, GAP, 1).tells("mean(0)", 1, 1);
     }
 
@@ -377,7 +416,8 @@ public final class Bounds4LoadsColdTheftsTest {
         run.after("later(1); seal(0, 3); later(2); seal(0, 5)").tells("theft(0)", 2, 1);
         run.after("later(4); seal(0, 3); later(8); seal(0, 4)").tells("theft(0)", 2, 1);
         run.after("later(16); seal(0, 5); later(32)").tells("theft(0)", 16, 15);
-        run.after("seal(0, 3); seal(0, 4)").tells("theft(0)", 16, 15).after("later(64); seal(0, 5)").tells("theft(0)", 64, 63);
+        run.after("seal(0, 3); seal(0, 4)").tells("theft(0)", 16, 15).after("later(64); seal(0, 5)")
+            .tells("theft(0)", 64, 63);
         run.after("seal(0, 3); trailer(0, 0, 0); seal(1, 3); later(1); seal(1, 5)").tells("theft(0)", 64, 63);
         run.tells("theft(1)", 1, 127);
     }
@@ -389,13 +429,15 @@ public final class Bounds4LoadsColdTheftsTest {
     }
 
     private static void theftState() {
-        Run run = withTrailer(Run.promise(41, "STATE: it was never found broken")).after("park(1, 2); row(0, 1); tractor(1, 0)");
+        Run run = withTrailer(Run.promise(41, "STATE: it was never found broken"))
+            .after("park(1, 2); row(0, 1); tractor(1, 0)");
         run.state("theft(0)").after("seal(0, 3)").state("theft(0)").after("seal(0, 4)").state("theft(0)");
         run.after("trailer(0, 0, 0); seal(0, 5)").tells("theft(0)", 0, 0).state("theft(1)");
     }
 
     private static void theftBad() {
-        Run run = Run.promise(41, "(BAD ahead.)").bad("theft(0)").after("trailer(0, 0, 0)").bad("theft(1); theft(-1); theft(LEAST); theft(MOST)");
+        Run run = Run.promise(41, "(BAD ahead.)").bad("theft(0)").after("trailer(0, 0, 0)")
+            .bad("theft(1); theft(-1); theft(LEAST); theft(MOST)");
     }
 
     // ---- promise 42
@@ -403,18 +445,22 @@ public final class Bounds4LoadsColdTheftsTest {
     private static void handsAsItWasTold() {
         Run run = withTrailer(Run.terms("It was in the HANDS of that YARD or TRACTOR that had it as that entry 3 or 4 was told"));
         run.after("seal(0, 3); seal(0, 5)").tells("hands(0)", 1, 1).after("hitch(5, 0); seal(0, 3); seal(0, 5)");
-        run.tells("hands(0)", 1, 1 << 13).after("park(5, 7); drop(5); seal(0, 3); seal(0, 4); seal(0, 5)").tells("hands(0)", 1, 128);
+        run.tells("hands(0)", 1, 1 << 13).after("park(5, 7); drop(5); seal(0, 3); seal(0, 4); seal(0, 5)")
+            .tells("hands(0)", 1, 128);
     }
 
     private static void handsByTheOrderOfEntries() {
         Run run = withTrailer(Run.terms("and of all that got it behind that, ahead of the entry 5 (by the order of entries)"));
         run.after("hitch(0, 0); seal(0, 3); drop(0); seal(0, 5); hitch(1, 0)").tells("hands(0)", 2, 1 << 8 | 1);
-        run.after("drop(1); hitch(2, 0); drop(2); seal(0, 3); hitch(3, 0); seal(0, 5); drop(3)").tells("hands(0)", 2, 1 << 11 | 1);
-        run.after("seal(0, 3); hitch(3, 0); drop(3); seal(0, 4); hitch(4, 0); seal(0, 5)").tells("hands(0)", 2, 1 << 12 | 1);
+        run.after("drop(1); hitch(2, 0); drop(2); seal(0, 3); hitch(3, 0); seal(0, 5); drop(3)")
+            .tells("hands(0)", 2, 1 << 11 | 1);
+        run.after("seal(0, 3); hitch(3, 0); drop(3); seal(0, 4); hitch(4, 0); seal(0, 5)")
+            .tells("hands(0)", 2, 1 << 12 | 1);
     }
 
     private static void handsOfAll() {
-        Run run = withTrailer(Run.promise(42, "(bits 0 to 7 YARDS, 8 to 13 TRACTORS)")).after("seal(0, 3); hitch(0, 0)");
+        Run run = withTrailer(Run.promise(42, "(bits 0 to 7 YARDS, 8 to 13 TRACTORS)"))
+            .after("seal(0, 3); hitch(0, 0)");
         for (int k = 0; k < 6; k++) {
             run.after("park(" + k + ", " + (k + 1) + "); drop(" + k + ")");
             run.after(k < 5 ? "park(" + (k + 1) + ", " + (k + 1) + "); hitch(" + (k + 1) + ", 0)" : "lose(0); find(0, 7)");
@@ -423,11 +469,13 @@ public final class Bounds4LoadsColdTheftsTest {
     }
 
     private static void handsState() {
-        Run run = withTrailer(Run.promise(42, "BAD; STATE")).state("hands(0)").after("seal(0, 3)").state("hands(0)").after("seal(0, 4)");
+        Run run = withTrailer(Run.promise(42, "BAD; STATE")).state("hands(0)").after("seal(0, 3)").state("hands(0)")
+            .after("seal(0, 4)");
         run.state("hands(0)").after("seal(0, 5)").tells("hands(0)", 1, 1).after("seal(0, 3)").tells("hands(0)", 1, 1);
     }
 
     private static void handsBad() {
-        Run run = Run.promise(42, "BAD").bad("hands(0)").after("trailer(0, 0, 0)").bad("hands(1); hands(-1); hands(LEAST); hands(MOST)");
+        Run run = Run.promise(42, "BAD").bad("hands(0)").after("trailer(0, 0, 0)")
+            .bad("hands(1); hands(-1); hands(LEAST); hands(MOST)");
     }
 }

@@ -75,22 +75,31 @@ public final class Bounds7ToldTest {
 
     private static void refusedInThisOrder() {
         Run run = Run.terms("Refused is, the first of these that fits, in this order");
-        run.after("text(0, 0)").times(20, "terms(0, 0)").bad("terms(3, 70)").full("terms(3, 0)").times(12, "trailer(0, 0, 0)");
-        run.bad("trailer(0, 0, -1)").full("trailer(0, 0, 0)").bad("swap(0, 0, 0, 0)").state("swap(0, 1, 7, 7)").bad("go(0, 0)");
+        run.after("text(0, 0)").times(20, "terms(0, 0)").bad("terms(3, 70)").full("terms(3, 0)")
+            .times(12, "trailer(0, 0, 0)");
+        run.bad("trailer(0, 0, -1)").full("trailer(0, 0, 0)").bad("swap(0, 0, 0, 0)").state("swap(0, 1, 7, 7)")
+            .bad("go(0, 0)");
         run.finds(NOTHING, "go(0, 1)").bad("lay(6, 0, 0)").finds(NOTHING, "lay(0, 0, 0)");
     }
 
     /** That a refused call changes nothing is looked at for each refused call of these tests: here on an object full of all. */
     private static void refusedChangesNothing() {
         Run run = busy(Run.terms("What is refused changes nothing but finding(), findings()."));
-        run.bad("row(0, 41); lay(6, 0, 0); tear(6); copy(0, 0, 6, 0, 1); text(0, 41); put(4, 0, 0); fault(4); later(-1)");
-        run.bad("way(0, 0, 1, 0); ferry(0, 1, 0, 0); comes(0, 0, 8); toll(0, 8); trailer(4, 0, 0); told(0, 8); mark(0, 0)");
-        run.bad("limit(1, 51); park(0, 8); hitch(6, 0); drop(6); go(0, 8); tractor(0, 5); lose(9); find(2, 8); seal(0, 6)");
-        run.bad("book(0, 0, 3); where(0, -1); terms(0, 70); force(4, 0, 0, 0); detention(9); law(-1, 0); load(0, 0, 0)");
-        run.bad("unload(9); slide(0, 59); weight(9, true); lawful(9); shift(9); cold(1, 0, 3); mean(6); theft(9); hands(9)");
-        run.bad("swap(0, 0, 0, 0); pairs(1, 0); partner(6); late(0, 1, 0, 0, 2001, 0); canBe(9); look(2, 8, 1); pool(0, 6)");
+        run.bad("row(0, 41); lay(6, 0, 0); tear(6); copy(0, 0, 6, 0, 1); text(0, 41); put(4, 0, 0); fault(4)")
+            .bad("later(-1)");
+        run.bad("way(0, 0, 1, 0); ferry(0, 1, 0, 0); comes(0, 0, 8); toll(0, 8); trailer(4, 0, 0); told(0, 8)")
+            .bad("mark(0, 0)");
+        run.bad("limit(1, 51); park(0, 8); hitch(6, 0); drop(6); go(0, 8); tractor(0, 5); lose(9); find(2, 8)")
+            .bad("seal(0, 6)");
+        run.bad("book(0, 0, 3); where(0, -1); terms(0, 70); force(4, 0, 0, 0); detention(9); law(-1, 0)")
+            .bad("load(0, 0, 0)");
+        run.bad("unload(9); slide(0, 59); weight(9, true); lawful(9); shift(9); cold(1, 0, 3); mean(6); theft(9)")
+            .bad("hands(9)");
+        run.bad("swap(0, 0, 0, 0); pairs(1, 0); partner(6); late(0, 1, 0, 0, 2001, 0); canBe(9); look(2, 8, 1)")
+            .bad("pool(0, 6)");
         run.bad("rent(1, 10, 0, 0, 0); count(8); findings(6)");
-        run.state("park(3, 0); hitch(3, 0); drop(3); go(3, 1); lose(2); find(0, 0); seal(0, 3); terms(1, 0); theft(1); hands(1)");
+        run.state("park(3, 0); hitch(3, 0); drop(3); go(3, 1); lose(2); find(0, 0); seal(0, 3); terms(1, 0); theft(1)")
+            .state("hands(1)");
         run.state("swap(0, 3, 0, 0); pairs(9, 0); late(0, 3, 0, 0, 0, 0); canBe(0); look(0, 0, 1)");
         run.finds(SIZE, "row(0, -1); copy(0, 0, 0, 0, -1); text(0, -1); pairs(3, 1); look(2, 0, 0); pool(0, 1); rent(2, 0, 1, 1, 1)");
         run.finds(NOTHING, "lay(5, 0, 0); tear(5); copy(0, 0, 5, 0, 0); put(2, 0, 0); fault(2); ferry(0, 7, 1, 0); comes(0, 0, 7)");
@@ -102,11 +111,14 @@ public final class Bounds7ToldTest {
 
     /** Trailers of two kinds, one lost, one with loads and a broken seal behind it; a swap, a look, a rent, .. told. */
     private static Run busy(Run run) {
-        run.after("way(0, 1, 10, 3); way(1, 2, 20, 4); ferry(1, 2, 50, 7); trailer(0, 0, 5000); trailer(1, 0, 900); trailer(2, 1, 70)");
-        run.after("hitch(0, 0); hitch(1, 1); seal(0, 3); later(3); seal(0, 5); seal(0, 3); load(0, 70, 33); later(40); lose(2)");
+        run.after("way(0, 1, 10, 3); way(1, 2, 20, 4); ferry(1, 2, 50, 7); trailer(0, 0, 5000); trailer(1, 0, 900)")
+            .after("trailer(2, 1, 70)");
+        run.after("hitch(0, 0); hitch(1, 1); seal(0, 3); later(3); seal(0, 5); seal(0, 3); load(0, 70, 33); later(40)")
+            .after("lose(2)");
         run.told("H50R7F01D09", 0).after("text(0, 2); text(1, 1); put(1, 0, 72); trailer(3, 1, 8)");
         run.after("park(3, 1); hitch(3, 3); row(0, 6); row(3, 6); lay(3, 1, 7); row(4, 6); lay(4, 5, 8); row(2, 0)");
-        run.row(1, 5, 1, 2, 0, 0, 0, 0, 0).after("look(2, 0, 1); rent(1, 1, 1, 1, 9); pairs(3, 0); detention(1); weight(0, true)");
+        run.row(1, 5, 1, 2, 0, 0, 0, 0, 0)
+            .after("look(2, 0, 1); rent(1, 1, 1, 1, 9); pairs(3, 0); detention(1); weight(0, true)");
         run.after("cold(3, 1, 0); later(1000); go(3, 0); mean(1); theft(0); hands(0); swap(0, 1, 0, 1)");
         return run.after("text(3, 0); tractor(3, 1)").due("asked()", 1053).state("park(3, 1)");
     }
@@ -117,7 +129,8 @@ public final class Bounds7ToldTest {
         run = Run.terms("2 BEYOND (a place that there is not)").after("row(0, 1)").finds(BEYOND, "lay(0, 1, 0)");
         run = Run.terms("3 UNLIKE (a TRAILER of another KIND)").after("trailer(0, 0, 0)").finds(UNLIKE, "mark(0, 1)");
         run = Run.terms("4 NOUGHT (shared among none)").after("row(0, 0)").finds(NOUGHT, "mean(0)");
-        run = Run.terms("5 SIZE (fewer than none; not as many as due)").after("row(0, 7)").finds(SIZE, "row(0, -1); pool(0, 0)");
+        run = Run.terms("5 SIZE (fewer than none; not as many as due)").after("row(0, 7)")
+            .finds(SIZE, "row(0, -1); pool(0, 0)");
     }
 
     private static void lastCall() {
@@ -132,34 +145,49 @@ public final class Bounds7ToldTest {
     // ---- promise 53
 
     private static void askedBefore() {
-        Run.promise(53, "0 before").due("asked()", 0).after("row(0, 0); trailer(0, 7, 0); later(5)").bad("told(1, 1)").due("asked()", 0);
+        Run.promise(53, "0 before").due("asked()", 0).after("row(0, 0); trailer(0, 7, 0); later(5)").bad("told(1, 1)")
+            .due("asked()", 0);
     }
 
     private static void askedOfEach() {
         Run run = Run.promise(53, "lay(), told(), limit(), tractor(), mean(), theft(), hands(), swap(), late(), look(), pool()");
-        run.row(0, 4, 6).asks("lay(0, 0, 8)", 4).after("trailer(1, 3, 1000)").asks("told(0, 1)", 3).asks("limit(0, 9)", 5);
-        run.after("later(2); park(2, 3); park(1, 3)").asks("tractor(2, 1)", 2).asks("mean(0)", 7).after("seal(0, 3); later(4); seal(0, 5)");
-        run.asks("theft(0)", 2).asks("hands(0)", 8).after("hitch(2, 0); trailer(0, 3, 3000); hitch(1, 1)").asks("swap(1, 2, 3, 3)", 16);
-        run.asks("late(1, 2, 3, 3, 0, 11)", 5).after("lose(0); way(3, 4, 10, 0); later(10)").row(1, 0, 0, 0, 0, 6, 0, 0, 0);
+        run.row(0, 4, 6).asks("lay(0, 0, 8)", 4).after("trailer(1, 3, 1000)").asks("told(0, 1)", 3)
+            .asks("limit(0, 9)", 5);
+        run.after("later(2); park(2, 3); park(1, 3)").asks("tractor(2, 1)", 2).asks("mean(0)", 7)
+            .after("seal(0, 3); later(4); seal(0, 5)");
+        run.asks("theft(0)", 2).asks("hands(0)", 8).after("hitch(2, 0); trailer(0, 3, 3000); hitch(1, 1)")
+            .asks("swap(1, 2, 3, 3)", 16);
+        run.asks("late(1, 2, 3, 3, 0, 11)", 5).after("lose(0); way(3, 4, 10, 0); later(10)")
+            .row(1, 0, 0, 0, 0, 6, 0, 0, 0);
         run.asks("look(0, 3, 1)", 60).row(2, 0, 0, 0, 7, 0, 0, 0, 0).asks("pool(2, 1)", 60).asks("pool(1, 2)", 60);
         run.asks("pool(1, 1)", 0);
     }
 
     private static void askedOfNoOthers() {
-        Run run = Run.promise(53, "asked()").row(0, 44, 0, 0, 0, 0, 0).asks("lay(0, 0, 0)", 44).after("copy(0, 0, 0, 1, 1); row(1, 1); tear(1)");
-        run.after("text(0, 2); put(0, 1, 32); fault(0); later(3); way(0, 1, 9, 9); ferry(0, 1, 9, 8); comes(0, 0, 1); toll(0, 1)");
-        run.after("trailer(3, 0, 9); mark(0, 3); park(0, 0); hitch(0, 0); drop(0); go(5, 1); seal(0, 3); seal(0, 5); book(0, 0, 0)");
-        run.after("where(0, 1); terms(0, 0); force(0, 0, 0, 0); detention(0); pence(); law(5, 5); load(0, 3, 3); unload(0); slide(0, 99)");
-        run.after("weight(0, true); lawful(0); shift(0); cold(0, 0, 0); trailer(0, 0, 0); hitch(0, 0); hitch(1, 1); pairs(3, 0); partner(0)");
-        run.after("lose(1); canBe(1); looked(0); rent(0, 0, 9, 9, 9); rented(0); upper(); lower(); count(0); finding(); findings(1)");
+        Run run = Run.promise(53, "asked()").row(0, 44, 0, 0, 0, 0, 0).asks("lay(0, 0, 0)", 44)
+            .after("copy(0, 0, 0, 1, 1); row(1, 1); tear(1)");
+        run.after("text(0, 2); put(0, 1, 32); fault(0); later(3); way(0, 1, 9, 9); ferry(0, 1, 9, 8); comes(0, 0, 1)")
+            .after("toll(0, 1)");
+        run.after("trailer(3, 0, 9); mark(0, 3); park(0, 0); hitch(0, 0); drop(0); go(5, 1); seal(0, 3); seal(0, 5)")
+            .after("book(0, 0, 0)");
+        run.after("where(0, 1); terms(0, 0); force(0, 0, 0, 0); detention(0); pence(); law(5, 5); load(0, 3, 3)")
+            .after("unload(0); slide(0, 99)");
+        run.after("weight(0, true); lawful(0); shift(0); cold(0, 0, 0); trailer(0, 0, 0); hitch(0, 0); hitch(1, 1)")
+            .after("pairs(3, 0); partner(0)");
+        run.after("lose(1); canBe(1); looked(0); rent(0, 0, 9, 9, 9); rented(0); upper(); lower(); count(0)")
+            .after("finding(); findings(1)");
         run.after("find(1, 0)").due("asked()", 44);
     }
 
     private static void askedNotOfRefused() {
-        Run run = Run.promise(53, "that was not refused told").row(0, 44).asks("lay(0, 0, 45)", 44).bad("lay(6, 0, 1); told(0, 0); limit(0, 0)");
-        run.bad("tractor(0, 5); mean(6); theft(0); hands(0); swap(0, 0, 0, 0); late(0, 0, 0, 0, 0, 0); look(0, 0, 0); pool(0, 6)");
-        run.finds(NOTHING, "lay(1, 0, 1); mean(1); pool(0, 1)").finds(BEYOND, "lay(0, 1, 1)").state("swap(0, 1, 0, 0); late(0, 1, 0, 0, 0, 0)");
-        run.after("trailer(0, 0, 0)").finds(UNLIKE, "limit(0, 0)").state("theft(0); hands(0); look(0, 0, 0)").due("asked()", 44);
+        Run run = Run.promise(53, "that was not refused told").row(0, 44).asks("lay(0, 0, 45)", 44)
+            .bad("lay(6, 0, 1); told(0, 0); limit(0, 0)");
+        run.bad("tractor(0, 5); mean(6); theft(0); hands(0); swap(0, 0, 0, 0); late(0, 0, 0, 0, 0, 0); look(0, 0, 0)")
+            .bad("pool(0, 6)");
+        run.finds(NOTHING, "lay(1, 0, 1); mean(1); pool(0, 1)").finds(BEYOND, "lay(0, 1, 1)")
+            .state("swap(0, 1, 0, 0); late(0, 1, 0, 0, 0, 0)");
+        run.after("trailer(0, 0, 0)").finds(UNLIKE, "limit(0, 0)").state("theft(0); hands(0); look(0, 0, 0)")
+            .due("asked()", 44);
     }
 
     // ---- promises 54 and 55
@@ -173,9 +201,12 @@ public final class Bounds7ToldTest {
     }
 
     private static void fractionToldLast() {
-        Run run = Run.promise(54, "of the fraction that was told last").after("trailer(0, 0, 0); trailer(0, 0, 0); load(0, 1, 101); weight(0, true)");
-        run.due("upper()", -1).due("lower()", 100).bad("weight(2, true); weight(-1, false)").due("upper()", -1).due("lower()", 100);
-        run.row(0, 5, 6).after("mean(0); unload(0); lawful(0)").due("upper()", -1).due("lower()", 100).after("weight(1, false)");
+        Run run = Run.promise(54, "of the fraction that was told last")
+            .after("trailer(0, 0, 0); trailer(0, 0, 0); load(0, 1, 101); weight(0, true)");
+        run.due("upper()", -1).due("lower()", 100).bad("weight(2, true); weight(-1, false)").due("upper()", -1)
+            .due("lower()", 100);
+        run.row(0, 5, 6).after("mean(0); unload(0); lawful(0)").due("upper()", -1).due("lower()", 100)
+            .after("weight(1, false)");
         run.due("upper()", 0).due("lower()", 1);
     }
 
@@ -186,7 +217,8 @@ public final class Bounds7ToldTest {
         for (int what = 0; what <= 7; what++) {
             run.due("count(" + what + ")", 0);
         }
-        run.after("later(99999)").times(4, "trailer(0, 0, 0)").after("lose(1); lose(3); way(0, 1, 1, 0); way(1, 0, 2, 0); way(6, 7, 1, 0); way(0, 7, 1, 0)");
+        run.after("later(99999)").times(4, "trailer(0, 0, 0)")
+            .after("lose(1); lose(3); way(0, 1, 1, 0); way(1, 0, 2, 0); way(6, 7, 1, 0); way(0, 7, 1, 0)");
         run.after("text(3, 0); terms(3, 0); text(0, 1); row(5, 0); row(0, 1); row(0, 2); row(2, 2); row(3, 3)");
         int[] want = {99999, 4, 2, 3, 1, 6, 4, 2};
         for (int what = 0; what <= 7; what++) {
@@ -195,8 +227,10 @@ public final class Bounds7ToldTest {
     }
 
     private static void countOfWhatIsThere() {
-        Run run = Run.promise(56, "7 TEXTS that are there").after("row(0, 0); row(1, 1); text(0, 0); trailer(0, 0, 0); lose(0)");
-        run.due("count(6)", 2).due("count(7)", 1).due("count(2)", 1).after("tear(0); find(0, 0)").due("count(6)", 1).due("count(2)", 0);
+        Run run = Run.promise(56, "7 TEXTS that are there")
+            .after("row(0, 0); row(1, 1); text(0, 0); trailer(0, 0, 0); lose(0)");
+        run.due("count(6)", 2).due("count(7)", 1).due("count(2)", 1).after("tear(0); find(0, 0)").due("count(6)", 1)
+            .due("count(2)", 0);
         run.due("count(5)", 3).due("count(1)", 1).after("tear(1)").due("count(6)", 0).due("count(7)", 1);
     }
 
@@ -207,22 +241,28 @@ public final class Bounds7ToldTest {
     // ---- promises 57 and 58
 
     private static void findingBefore() {
-        Run run = Run.promise(57, "(0 before any)").due("finding()", 0).bad("row(6, 0)").state("drop(0)").due("finding()", 0);
+        Run run = Run.promise(57, "(0 before any)").due("finding()", 0).bad("row(6, 0)").state("drop(0)")
+            .due("finding()", 0);
         for (int f = 1; f <= 5; f++) {
             run.due("findings(" + f + ")", 0);
         }
     }
 
     private static void findingLatest() {
-        Run run = Run.promise(57, "The latest FINDING").finds(NOTHING, "tear(0)").finds(SIZE, "row(0, -1)").after("row(0, 0)").due("finding()", SIZE);
+        Run run = Run.promise(57, "The latest FINDING").finds(NOTHING, "tear(0)").finds(SIZE, "row(0, -1)")
+            .after("row(0, 0)").due("finding()", SIZE);
         run.bad("row(6, 0)").due("finding()", SIZE).finds(NOUGHT, "mean(0)").state("drop(0)").due("finding()", NOUGHT);
-        run.finds(BEYOND, "lay(0, 0, 0)").after("trailer(0, 0, 0)").finds(UNLIKE, "limit(0, 0)").finds(NOTHING, "tear(1)").due("finding()", NOTHING);
+        run.finds(BEYOND, "lay(0, 0, 0)").after("trailer(0, 0, 0)").finds(UNLIKE, "limit(0, 0)")
+            .finds(NOTHING, "tear(1)").due("finding()", NOTHING);
     }
 
     private static void findingsHowOften() {
-        Run run = Run.promise(58, "How often a FINDING (1 .. 5) was answered").finds(NOTHING, "tear(0); tear(1); fault(0)").after("row(0, 0)");
-        run.finds(SIZE, "row(0, -1); text(0, -1)").finds(BEYOND, "lay(0, 0, 0)").finds(NOUGHT, "mean(0)").finds(NOUGHT, "mean(0); mean(0)");
-        run.after("trailer(0, 0, 0)").finds(UNLIKE, "limit(0, 0); mark(0, 1); mark(0, 2); mark(0, 3)").finds(NOTHING, "tear(3)");
+        Run run = Run.promise(58, "How often a FINDING (1 .. 5) was answered")
+            .finds(NOTHING, "tear(0); tear(1); fault(0)").after("row(0, 0)");
+        run.finds(SIZE, "row(0, -1); text(0, -1)").finds(BEYOND, "lay(0, 0, 0)").finds(NOUGHT, "mean(0)")
+            .finds(NOUGHT, "mean(0); mean(0)");
+        run.after("trailer(0, 0, 0)").finds(UNLIKE, "limit(0, 0); mark(0, 1); mark(0, 2); mark(0, 3)")
+            .finds(NOTHING, "tear(3)");
         int[] want = {4, 1, 4, 3, 2};
         for (int f = 1; f <= 5; f++) {
             run.due("findings(" + f + ")", want[f - 1]);
@@ -230,7 +270,8 @@ public final class Bounds7ToldTest {
     }
 
     private static void findingsBad() {
-        Run.promise(58, "BAD").finds(NOTHING, "tear(0)").bad("findings(0); findings(6); findings(-1); findings(LEAST); findings(MOST)");
+        Run.promise(58, "BAD").finds(NOTHING, "tear(0)")
+            .bad("findings(0); findings(6); findings(-1); findings(LEAST); findings(MOST)");
     }
 
     // ---- promise 59
@@ -304,7 +345,8 @@ public final class Bounds7ToldTest {
     }
 
     private static void digestOfRowsAndTexts() {
-        Run run = Run.promise(59, "of each ROW its size (-1: missing) and places, of each TEXT likewise").row(0).row(5, Integer.MAX_VALUE, Integer.MIN_VALUE);
+        Run run = Run.promise(59, "of each ROW its size (-1: missing) and places, of each TEXT likewise").row(0)
+            .row(5, Integer.MAX_VALUE, Integer.MIN_VALUE);
         Values v = new Values();
         v.rows[0] = new int[0];
         v.rows[5] = new int[] {Integer.MAX_VALUE, Integer.MIN_VALUE};
@@ -312,7 +354,8 @@ public final class Bounds7ToldTest {
         v.texts[3] = new int[0];
         v.counts[6] = 2;
         v.counts[7] = 2;
-        run.after("text(0, 3); put(0, 1, 128); put(0, 2, 127); text(3, 0)").due("digest()", v.digest()).after("row(1, 40); tear(0)");
+        run.after("text(0, 3); put(0, 1, 128); put(0, 2, 127); text(3, 0)").due("digest()", v.digest())
+            .after("row(1, 40); tear(0)");
         v.rows[1] = new int[40];
         v.rows[0] = null;
         run.due("digest()", v.digest());
@@ -321,7 +364,8 @@ public final class Bounds7ToldTest {
     private static void digestOfTrailersAndTractors() {
         Run run = Run.promise(59, "of each TRAILER told() 0 to 7; of each TRACTOR tractor() 0 to 4");
         Values v = new Values();
-        run.after("later(1440); trailer(3, 7, 100000); trailer(0, 0, 0); park(5, 7); hitch(5, 0); slide(0, 120); load(0, 1, 1); lose(1)");
+        run.after("later(1440); trailer(3, 7, 100000); trailer(0, 0, 0); park(5, 7); hitch(5, 0); slide(0, 120)")
+            .after("load(0, 1, 1); lose(1)");
         run.after("way(7, 6, 9, 0); go(5, 6)");
         v.counts[0] = 1440;
         v.counts[1] = 2;
@@ -362,7 +406,8 @@ public final class Bounds7ToldTest {
     }
 
     private static void digestOfTerms() {
-        Run run = Run.promise(59, "of each TERMS the DAY on which they were told, from").after("text(0, 0); terms(0, 69); later(1439); terms(0, 0)");
+        Run run = Run.promise(59, "of each TERMS the DAY on which they were told, from")
+            .after("text(0, 0); terms(0, 69); later(1439); terms(0, 0)");
         Values v = new Values();
         run.after("later(1); terms(0, 5); later(98559); terms(0, 7)");
         v.counts[0] = 99999;
@@ -382,7 +427,8 @@ public final class Bounds7ToldTest {
     }
 
     private static void digestChangesNothing() {
-        Run run = Run.promise(59, "`long digest()`").row(0, 5).asks("lay(0, 0, 6)", 5).finds(SIZE, "row(0, -1)").after("text(0, 1)");
+        Run run = Run.promise(59, "`long digest()`").row(0, 5).asks("lay(0, 0, 6)", 5).finds(SIZE, "row(0, -1)")
+            .after("text(0, 1)");
         TrailerYards x = new TrailerYards();
         x.row(0, 1);
         long first = x.digest();
@@ -393,6 +439,7 @@ public final class Bounds7ToldTest {
         v.counts[7] = 1;
         v.rows[0] = new int[] {6};
         v.texts[0] = new int[] {32};
-        run.due("digest()", v.digest()).due("digest()", v.digest()).due("asked()", 5).due("finding()", SIZE).due("findings(5)", 1);
+        run.due("digest()", v.digest()).due("digest()", v.digest()).due("asked()", 5).due("finding()", SIZE)
+            .due("findings(5)", 1);
     }
 }

@@ -77,6 +77,14 @@ final class Run {
         return refused(calls, TrailerYards.BAD, 0);
     }
 
+    /** The same calls are BAD with each of these numbers in the place of #. */
+    Run badWith(String[] numbers, String calls) {
+        for (String number : numbers) {
+            bad(calls.replace("#", number));
+        }
+        return this;
+    }
+
     Run full(String calls) {
         return refused(calls, TrailerYards.FULL, 0);
     }
