@@ -30,6 +30,7 @@ public final class Bounds1RowsTextsYardsTest {
         dayIsCut();
         yardsAreNumbered();
         waysLeadBothWays();
+        ferryEveryAndFirst();
         ferryGoesJustThen();
         comesToItself();
     }
@@ -216,6 +217,16 @@ public final class Bounds1RowsTextsYardsTest {
         run.due("toll(6, 2)", 999).due("toll(2, 6)", 999).due("ferry(2, 6, 50, 7)", 1);
         run.due("comes(6, 8, 2)", 657).due("comes(2, 8, 6)", 657);
         run.bad("way(6, 2, 0, 0); way(6, 2, 601, 0); way(6, 2, 1, -1); way(6, 2, 1, 1000)");
+    }
+
+    private static void ferryEveryAndFirst() {
+        Run run = Run.terms("(a WAY with every E, 1 .. 1440, and first F, 0 .. E - 1)").after("way(0, 1, 1, 0)");
+        int[][] ferries = {{1, 0}, {2, 0}, {2, 1}, {1440, 0}, {1440, 1439}};
+        for (int[] f : ferries) {
+            run.due("ferry(0, 1, " + f[0] + ", " + f[1] + ")", 1).due("comes(0, 0, 1)", f[1] + 1);
+            run.due("comes(0, " + (f[1] + 1) + ", 1)", f[1] + f[0] + 1).bad("ferry(0, 1, " + f[0] + ", " + f[0] + ")");
+        }
+        run.bad("ferry(0, 1, 0, 0); ferry(0, 1, 1441, 0); ferry(0, 1, 5, -1)");
     }
 
     private static void ferryGoesJustThen() {

@@ -641,5 +641,6 @@ public final class Bounds2TrailersTractorsTest {
             .bad("where(0, 1); where(0, -1); where(1, 0)");
         run.bad("where(-1, 0); where(0, LEAST); where(0, MOST)").after("later(99999)").due("where(0, 99999)", 0);
         run.bad("where(0, 100000)");
+        fullBook(run.anew()).due("where(0, 0)", 0).bad("where(0, 1)").after("later(5)").due("where(0, 5)", 0);
     }
 }

@@ -13,6 +13,7 @@ public final class Bounds3TermsTest {
     private static void terms() {
         termsOfNone();
         termsDays();
+        termsToldOnTheDayOfNow();
         termsBad();
         termsFull();
         termsNothing();
@@ -64,6 +65,13 @@ public final class Bounds3TermsTest {
         Run run = Run.promise(28, "in force from a DAY (0 .. 69) on").text(0, "H7").due("terms(0, 69)", 0);
         run.due("force(2, 0, 68, 69)", 600).due("force(2, 0, 69, 69)", 7).due("terms(0, 0)", 1)
             .due("force(2, 0, 0, 0)", 7);
+    }
+
+    private static void termsToldOnTheDayOfNow() {
+        Run run = Run.terms("told on a DAY (that of NOW), in force from a DAY on").after("later(1439)").told("H7", 3)
+            .after("later(1)");
+        run.told("H8", 3).due("force(2, 0, 3, 0)", 7).due("force(2, 0, 3, 1)", 8).due("force(2, 0, 2, 1)", 600);
+        run.after("later(98559)").told("H9", 0).due("force(2, 0, 0, 68)", 600).due("force(2, 0, 0, 69)", 9);
     }
 
     private static void termsBad() {

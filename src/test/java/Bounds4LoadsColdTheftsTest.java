@@ -67,6 +67,7 @@ public final class Bounds4LoadsColdTheftsTest {
     private static void cold() {
         coldAbove();
         coldGaps();
+        coldMost();
         coldWorst();
         coldEmptyAndWhole();
         coldBad();
@@ -297,6 +298,11 @@ public final class Bounds4LoadsColdTheftsTest {
         run.after("unload(0); load(0, 10, 121); law(20000, 20000)").due("shift(0)", NONE).after("slide(0, 120)")
             .due("shift(0)", NONE);
         run.after("slide(0, 61)").due("shift(0)", NONE).after("load(0, 10, 119)").due("shift(0)", 120);
+        // One load and nothing allowed on the kingpin: lawful just with the axle under the load.
+        run.after("law(20000, 0); unload(0); load(0, 1, 59); slide(0, 100)").due("shift(0)", NONE);
+        run.after("unload(0); load(0, 1, 60)").due("shift(0)", 60).after("unload(0); load(0, 1, 120)")
+            .due("shift(0)", 120);
+        run.after("unload(0); load(0, 1, 121)").due("shift(0)", NONE);
     }
 
     private static void shiftNone() {
@@ -332,6 +338,12 @@ public final class Bounds4LoadsColdTheftsTest {
         expectCold(run, 0, 0, 10, 10);
         expectCold(run.row(0, -998, -1000), 0, 0, 0, 0);
         expectCold(run.row(0, GAP, 6, GAP), 0, 10, 30, 30);
+    }
+
+    private static void coldMost() {
+        Run run = Run.terms("MOST: gaps, too.").after("trailer(1, 0, 0)").row(0, 6, GAP, 5, GAP, 7);
+        run.due("cold(0, 0, 1)", 40).due("cold(0, 0, 0)", 20).row(0, 5, -50).due("cold(0, 0, 1)", 0);
+        run.row(0, GAP, GAP).due("cold(0, 0, 1)", 20).due("cold(0, 0, 0)", 0);
     }
 
     private static void coldWorst() {

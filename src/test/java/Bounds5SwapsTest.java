@@ -13,6 +13,7 @@ public final class Bounds5SwapsTest {
     private static void swap() {
         swapInTenMinutes();
         swapAsTheLaterOneComes();
+        swapEndOfTheLaterOne();
         swapWhereTheyAre();
         swapLeastEnd();
         swapLeastSum();
@@ -77,6 +78,13 @@ public final class Bounds5SwapsTest {
             .after("way(0, 1, 30, 0); way(1, 2, 70, 0)");
         run.tells("swap(0, 1, 0, 2)", 1, 150).tells("swap(1, 0, 2, 0)", 1, 150).asks("told(0, 2)", 0)
             .asks("tractor(0, 1)", 0);
+    }
+
+    private static void swapEndOfTheLaterOne() {
+        Run run = tractors(Run.terms("END is as the later one is there"), 1, 1)
+            .after("way(1, 0, 30, 0); way(1, 2, 70, 0)");
+        run.tells("swap(0, 1, 0, 2)", 1, 80).tells("swap(0, 1, 2, 0)", 1, 80).tells("swap(0, 1, 0, 1)", 1, 40);
+        run.tells("swap(0, 1, 1, 0)", 1, 40).tells("swap(0, 1, 1, 1)", 1, 10);
     }
 
     private static void swapWhereTheyAre() {

@@ -27,6 +27,7 @@ public final class Bounds6LostPoolRentTest {
         lookJustWhereItCanBe();
         lookFirstByYards();
         lookMinutesTillOneComes();
+        lookLeastSum();
         lookBad();
         lookState();
         lookNothingOfTheRow();
@@ -45,6 +46,7 @@ public final class Bounds6LostPoolRentTest {
     private static void pool() {
         poolNumbers();
         poolAsManyAsCanBe();
+        poolLack();
         poolLeastSum();
         poolBringsOtherwise();
         poolOfItself();
@@ -171,6 +173,15 @@ public final class Bounds6LostPoolRentTest {
         run.tells("look(0, 3, 0)", 1, 2 * 19).tells("look(0, 2, 0)", 1, 2 * 1019);
     }
 
+    /** The second order is better by one, and by one worse. */
+    private static void lookLeastSum() {
+        Run run = Run.terms("that with the least sum of weight times minutes till one COMES there");
+        run.after("way(0, 1, 7, 0); way(0, 2, 10, 0); way(1, 2, 10, 0); trailer(0, 0, 0); lose(0); later(10)");
+        run.row(0, 0, 1, 2, 0, 0, 0, 0, 0).tells("look(0, 0, 0)", 2, 40).due("looked(0)", 2).due("looked(1)", 1);
+        run.after("way(1, 2, 9, 0)").tells("look(0, 0, 0)", 2, 39).due("looked(0)", 1).due("looked(1)", 2);
+        run.after("way(1, 2, 8, 0)").tells("look(0, 0, 0)", 2, 37).due("looked(0)", 1).due("looked(1)", 2);
+    }
+
     private static void lookBad() {
         Run run = looking(Run.promise(48, "BAD; STATE; NOTHING: the ROW")).after("row(0, 8)")
             .bad("look(-1, 0, 0); look(1, 0, 0)");
@@ -267,6 +278,12 @@ public final class Bounds6LostPoolRentTest {
             .tells("pool(0, 1)", 0, 70);
         run.row(0, 0, 0, 0, 0, 0, 0, 0, 5).tells("pool(0, 1)", 2, 0).row(1, 0, 0, 0, 0, 0, 0, 0, 7)
             .tells("pool(0, 1)", 2, 0);
+    }
+
+    private static void poolLack() {
+        Run run = withWays(Run.terms("LACK: what none can be brought for")).row(0, 1, 0, 0, 0, 0, 0, 0, 30);
+        run.row(1, 0, 30, 30, 30, 30, 30, 30, 0).tells("pool(0, 1)", 179, 10).row(1, 0, 0, 0, 0, 0, 0, 1, 30);
+        run.tells("pool(0, 1)", 0, 60).row(1, 1, 0, 0, 0, 0, 0, 1, 30).tells("pool(0, 1)", 1, 0);
     }
 
     private static void poolLeastSum() {
